@@ -23,6 +23,11 @@ public final class GroundProver {
   private static final int MOST_PATTERN = 12;
   private static final int MOST_COUNTED = 12;
 
+  // The terms in the store, those that one call lists, and those of them that are inside each other.
+  private static final int MOST_NODES = 1 << 19;
+  private static final int MOST_LISTED = 1 << 17;
+  private static final int MOST_OPEN_NODES = 256;
+
   private static final int LARGEST_TERM = 1000;
   private static final int DEEPEST_TERM = 60;
   private static final int LARGEST_SIDE = 300;
@@ -60,7 +65,7 @@ public final class GroundProver {
     printer = new Printer(symbols, store, walk);
     search = new ClassSearch(theory, store, walk, grammar);
     matcher = new Matcher(theory, store, walk, grammar);
-    numbered = new Row();
+    numbered = new Row(MOST_LISTED);
   }
 
   // ---- input and symbols
@@ -327,7 +332,7 @@ public final class GroundProver {
     if (!reader.readTheoryText()) {
       throw new IllegalArgumentException("the text has an error");
     }
-    int outcome = addStatements();
+    int outcome = theory.addRead(reader);
     if (outcome == Theory.TOO_MANY) {
       throw new IllegalStateException("there are too many equations or separations");
     }
@@ -461,7 +466,7 @@ public final class GroundProver {
       throw new IllegalArgumentException("the size is not 1 to 12");
     }
     tidy();
-    return search.countEqual(numbered.get(t), n);
+    return search.countEqual(theory.normalize(numbered.get(t)), n);
   }
 
   public boolean isFinite(int t) throws IndexOutOfBoundsException {
@@ -469,7 +474,7 @@ public final class GroundProver {
       throw new IndexOutOfBoundsException("no such term");
     }
     tidy();
-    return search.hasFiniteClass(numbered.get(t));
+    return search.hasFiniteClass(theory.normalize(numbered.get(t)));
   }
 
   public int smallest(int t) throws IndexOutOfBoundsException, ArithmeticException {
@@ -477,7 +482,7 @@ public final class GroundProver {
       throw new IndexOutOfBoundsException("no such term");
     }
     tidy();
-    int node = search.leastOfSmallest(numbered.get(t));
+    int node = search.leastOfSmallest(theory.normalize(numbered.get(t)));
     if (node < 0) {
       throw new ArithmeticException("the smallest term is too large");
     }
@@ -497,6 +502,7 @@ public final class GroundProver {
     if (count > MOST_SOLUTIONS) {
       throw new ArithmeticException("there are too many solutions");
     }
+    matcher.keepFound();
     return count;
   }
 
@@ -551,20 +557,6 @@ public final class GroundProver {
     return number;
   }
 
-  private int addStatements() {
-    int equations = theory.equationCount;
-    int separations = theory.separationCount;
-    for (int i = 0; i < reader.statementCount(); i++) {
-      int outcome =
-          theory.addStatement(reader.isEquation(i), reader.leftTerm(i), reader.rightTerm(i));
-      if (outcome < 0) {
-        theory.goBack(equations, separations);
-        return outcome;
-      }
-    }
-    return reader.statementCount();
-  }
-
   /** Between two calls only these terms are needed; all others may go when the store is crowded. */
   private void tidy() {
     if (!store.isCrowded()) {
@@ -579,13 +571,16 @@ public final class GroundProver {
     store.dropUnmarked();
   }
 
-  /** A row of ints, 0 where nothing was set. It grows by blocks, as a copy would cost room again. */
+  /** A row of ints, 0 where nothing was set. It is made block by block, as most rows stay short. */
   private static final class Row {
-    private static final int BLOCK_BITS = 8;
+    private static final int BLOCK_BITS = 10;
     private static final int BLOCK = 1 << BLOCK_BITS;
-    private static final int MOST_CELLS = 1 << 22;
 
-    private int[][] blocks = new int[4][];
+    private final int[][] blocks;
+
+    Row(int mostCells) {
+      blocks = new int[(Math.max(mostCells, 1) - 1 >> BLOCK_BITS) + 1][];
+    }
 
     int get(int i) {
       int b = i >> BLOCK_BITS;
@@ -596,25 +591,14 @@ public final class GroundProver {
     }
 
     void set(int i, int value) {
-      if (i < 0 || i >= MOST_CELLS) {
-        return;
-      }
       int b = i >> BLOCK_BITS;
-      if (b >= blocks.length) {
-        widen(b);
+      if (b < 0 || b >= blocks.length) {
+        return;
       }
       if (blocks[b] == null) {
         blocks[b] = new int[BLOCK];
       }
       blocks[b][i & (BLOCK - 1)] = value;
-    }
-
-    private void widen(int b) {
-      int[][] wider = new int[Math.max(2 * blocks.length, b + 1)][];
-      for (int i = 0; i < blocks.length; i++) {
-        wider[i] = blocks[i];
-      }
-      blocks = wider;
     }
   }
 
@@ -774,23 +758,21 @@ public final class GroundProver {
    * several hundred thousand nodes. A size or a depth at its bound is too large for every purpose.
    */
   private static final class TermStore {
-    private static final int BUCKETS = 4096;
-    private static final int MOST_NODES = 1 << 19;
+    private static final int BUCKETS = 1 << 15;
     private static final int ROOMY = 20000;
     private static final int MOST_WIDTH = (1 << 22) - 1;
     private static final int MOST_HEIGHT = 255;
-    private static final int MARKED = Integer.MAX_VALUE;
-    private static final int MOST_MARK_LEVELS = 200;
+    private static final int MARKED = -1;
 
     private final Symbols symbols;
-    private final Row signs = new Row();
-    private final Row parts = new Row();
-    private final Row extents = new Row();
-    private final Row numbers = new Row();
-    private final Row slots = new Row();
-    private final Row tags = new Row();
-    private final Row links = new Row();
-    private final Row buckets = new Row();
+    private final Row signs = new Row(MOST_NODES);
+    private final Row parts = new Row(MOST_PARTS * MOST_NODES);
+    private final Row extents = new Row(MOST_NODES);
+    private final Row numbers = new Row(MOST_NODES);
+    private final Row links = new Row(MOST_NODES);
+    private final Row buckets = new Row(BUCKETS);
+    private final int[] pending = new int[MOST_PARTS * MOST_OPEN_NODES];
+    private int pendingCount;
     private int top;
     private int used;
     private int freeLink;
@@ -824,10 +806,6 @@ public final class GroundProver {
       return (extents.get(node) & 1) == 0;
     }
 
-    boolean isVariable(int node) {
-      return symbols.variableOrdinal(signs.get(node)) != NONE;
-    }
-
     int variableOrdinal(int node) {
       return symbols.variableOrdinal(signs.get(node));
     }
@@ -844,24 +822,7 @@ public final class GroundProver {
       numbers.set(node, number + 1);
     }
 
-    /** A slot is only a hint; the walk that set it proves it by its own row. */
-    int slot(int node) {
-      return slots.get(node);
-    }
-
-    void setSlot(int node, int slot) {
-      slots.set(node, slot);
-    }
-
-    /** A tag is only a hint; the theory that set it proves it by its own rules. */
-    int tag(int node) {
-      return tags.get(node);
-    }
-
-    void setTag(int node, int tag) {
-      tags.set(node, tag);
-    }
-
+    /** The node of a term, given by its symbol and its arguments; NONE stands where there is none. */
     int make(int symbol, int a, int b, int c) {
       int bucket = bucketOf(symbol, a, b, c);
       int node = buckets.get(bucket) - 1;
@@ -875,7 +836,7 @@ public final class GroundProver {
         }
         node = links.get(node) - 1;
       }
-      return keep(symbol, a, b, c);
+      return keep(symbol, a, b, c, bucket);
     }
 
     private int bucketOf(int symbol, int a, int b, int c) {
@@ -886,7 +847,7 @@ public final class GroundProver {
       return hash & (BUCKETS - 1);
     }
 
-    private int keep(int symbol, int a, int b, int c) {
+    private int keep(int symbol, int a, int b, int c, int bucket) {
       int node = freeLink - 1;
       if (node >= 0) {
         freeLink = links.get(node);
@@ -894,6 +855,7 @@ public final class GroundProver {
         node = top;
         top++;
       } else {
+        // The calls of one object cannot make so many terms.
         return 0;
       }
       used++;
@@ -902,55 +864,52 @@ public final class GroundProver {
       parts.set(MOST_PARTS * node + 1, b);
       parts.set(MOST_PARTS * node + 2, c);
       numbers.set(node, 0);
-      extents.set(node, extentOf(node));
-      link(node);
+      int open = symbols.variableOrdinal(symbol) == NONE ? 0 : 1;
+      extents.set(node, extentOver(open, extents.get(a), extents.get(b), extents.get(c)));
+      links.set(node, buckets.get(bucket));
+      buckets.set(bucket, node + 1);
       return node;
     }
 
-    private void link(int node) {
-      int first = MOST_PARTS * node;
-      int bucket =
-          bucketOf(signs.get(node), parts.get(first), parts.get(first + 1), parts.get(first + 2));
-      links.set(node, buckets.get(bucket));
-      buckets.set(bucket, node + 1);
-    }
-
-    private int extentOf(int node) {
-      int width = 1;
-      int height = 0;
-      int open = isVariable(node) ? 1 : 0;
-      for (int i = 0; i < arity(node); i++) {
-        int extent = extents.get(parts.get(MOST_PARTS * node + i));
-        width += extent >>> 9;
-        height = Math.max(height, (extent >>> 1) & MOST_HEIGHT);
-        open |= extent & 1;
-      }
-      width = Math.min(width, MOST_WIDTH);
-      height = Math.min(height + 1, MOST_HEIGHT);
-      return width << 9 | height << 1 | open;
+    /** The extent of a term over those of its arguments; that of an argument not there is 0. */
+    private int extentOver(int open, int a, int b, int c) {
+      int width = Math.min(1 + (a >>> 9) + (b >>> 9) + (c >>> 9), MOST_WIDTH);
+      int highest = Math.max((a >>> 1) & MOST_HEIGHT, (b >>> 1) & MOST_HEIGHT);
+      int height = Math.min(1 + Math.max(highest, (c >>> 1) & MOST_HEIGHT), MOST_HEIGHT);
+      return width << 9 | height << 1 | open | ((a | b | c) & 1);
     }
 
     boolean isCrowded() {
       return used > crowd;
     }
 
+    /** From here until dropUnmarked the links are marks, as the buckets are made anew then. */
     void startMarking() {
       for (int node = 0; node < top; node++) {
-        slots.set(node, NONE);
+        links.set(node, 0);
       }
     }
 
-    void mark(int node) {
-      markFrom(node, 0);
+    void mark(int root) {
+      pendingCount = 0;
+      markOne(root);
+      for (int n = 0; n < MOST_NODES && pendingCount > 0 && pendingCount <= pending.length; n++) {
+        pendingCount--;
+        int node = pending[pendingCount];
+        for (int i = 0; i < arity(node); i++) {
+          markOne(parts.get(MOST_PARTS * node + i));
+        }
+      }
     }
 
-    private void markFrom(int node, int level) {
-      if (node < 0 || level > MOST_MARK_LEVELS || slots.get(node) == MARKED) {
+    private void markOne(int node) {
+      if (node < 0 || links.get(node) == MARKED) {
         return;
       }
-      slots.set(node, MARKED);
-      for (int i = 0; i < arity(node); i++) {
-        markFrom(parts.get(MOST_PARTS * node + i), level + 1);
+      links.set(node, MARKED);
+      if (pendingCount >= 0 && pendingCount < pending.length) {
+        pending[pendingCount] = node;
+        pendingCount++;
       }
     }
 
@@ -961,27 +920,34 @@ public final class GroundProver {
       freeLink = 0;
       used = 0;
       for (int node = 0; node < top; node++) {
-        if (slots.get(node) == MARKED) {
-          link(node);
+        if (links.get(node) == MARKED) {
+          relink(node);
           used++;
         } else {
           links.set(node, freeLink);
           freeLink = node + 1;
         }
       }
-      // Twice what lives, so that a full store is not searched for room in every call.
-      crowd = Math.max(ROOMY, 2 * used);
+      crowd = used + ROOMY;
+    }
+
+    private void relink(int node) {
+      int first = MOST_PARTS * node;
+      int bucket =
+          bucketOf(signs.get(node), parts.get(first), parts.get(first + 1), parts.get(first + 2));
+      links.set(node, buckets.get(bucket));
+      buckets.set(bucket, node + 1);
     }
   }
 
   /** A list of different nodes, each one behind its arguments where add was used, with results. */
   private static final class Walk {
-    private static final int MOST_WALK_LEVELS = 200;
-
     private final TermStore store;
-    private final Row nodes = new Row();
-    private final Row values = new Row();
-    private final Row tallies = new Row();
+    private final Row slots = new Row(MOST_NODES);
+    private final Row nodes = new Row(MOST_LISTED);
+    private final Row values = new Row(MOST_LISTED);
+    private final Row tallies = new Row(MOST_LISTED);
+    private final int[] open = new int[MOST_OPEN_NODES];
     private int count;
 
     Walk(TermStore store) {
@@ -1016,8 +982,9 @@ public final class GroundProver {
       count = 0;
     }
 
+    /** A slot may be left from an earlier list, so the list itself must say that the node is there. */
     int indexOf(int node) {
-      int slot = node < 0 ? NONE : store.slot(node);
+      int slot = node < 0 ? NONE : slots.get(node);
       return slot >= 0 && slot < count && nodes.get(slot) == node ? slot : NONE;
     }
 
@@ -1026,23 +993,38 @@ public final class GroundProver {
       return indexOf(store.part(nodes.get(i), k));
     }
 
-    void add(int node) {
-      collect(node, 0);
+    /** Lists a node behind all that it is made of. */
+    void add(int root) {
+      int last = NONE;
+      if (root >= 0 && indexOf(root) == NONE) {
+        last = 0;
+        open[0] = root;
+      }
+      for (int n = 0; n < 2 * MOST_NODES && last >= 0 && last + 1 < MOST_OPEN_NODES; n++) {
+        int part = firstUnlisted(open[last]);
+        if (part == NONE) {
+          append(open[last]);
+          last--;
+        } else {
+          last++;
+          open[last] = part;
+        }
+      }
     }
 
-    private void collect(int node, int level) {
-      if (node < 0 || level > MOST_WALK_LEVELS || indexOf(node) != NONE) {
-        return;
+    private int firstUnlisted(int node) {
+      for (int k = 0; k < store.arity(node); k++) {
+        int part = store.part(node, k);
+        if (indexOf(part) == NONE) {
+          return part;
+        }
       }
-      for (int i = 0; i < store.arity(node); i++) {
-        collect(store.part(node, i), level + 1);
-      }
-      append(node);
+      return NONE;
     }
 
     void append(int node) {
       if (node >= 0 && indexOf(node) == NONE) {
-        store.setSlot(node, count);
+        slots.set(node, count);
         nodes.set(count, node);
         count++;
       }
@@ -1089,6 +1071,8 @@ public final class GroundProver {
   /** The input buffer and the reading of texts from left to right. */
   private static final class Reader {
     private static final int MORE = -2;
+    // A statement has at least two names, a sign between them and a semicolon.
+    private static final int MOST_READ = MOST_INPUT / 4;
 
     private final Symbols symbols;
     private final TermStore store;
@@ -1105,9 +1089,9 @@ public final class GroundProver {
     private final int[] openCounts = new int[MOST_OPEN + 1];
     private final int[] openParts = new int[(MOST_OPEN + 1) * MOST_PARTS];
     private int openCount;
-    private final Row lefts = new Row();
-    private final Row rights = new Row();
-    private final Row equations = new Row();
+    private final int[] lefts = new int[MOST_READ];
+    private final int[] rights = new int[MOST_READ];
+    private final boolean[] areEquations = new boolean[MOST_READ];
     private int statementCount;
 
     Reader(Symbols symbols, TermStore store) {
@@ -1136,15 +1120,15 @@ public final class GroundProver {
     }
 
     boolean isEquation(int i) {
-      return equations.get(i) == 1;
+      return i >= 0 && i < MOST_READ && areEquations[i];
     }
 
     int leftTerm(int i) {
-      return lefts.get(i);
+      return i >= 0 && i < MOST_READ ? lefts[i] : NONE;
     }
 
     int rightTerm(int i) {
-      return rights.get(i);
+      return i >= 0 && i < MOST_READ ? rights[i] : NONE;
     }
 
     void append(int four) {
@@ -1198,14 +1182,19 @@ public final class GroundProver {
     boolean readTheoryText() {
       start(true);
       statementCount = 0;
+      // Each round reads a statement, and so at least a byte.
       for (int i = 0; i <= end; i++) {
         skipBlanks();
         if (at >= end) {
           return true;
         }
-        if (!readStatement()) {
+        int left = readOne();
+        int sign = left < 0 ? NONE : readSign();
+        int right = sign < 0 ? NONE : readOne();
+        if (right < 0 || !readSemicolon()) {
           return false;
         }
+        keepStatement(left, sign == 1, right);
       }
       return true;
     }
@@ -1218,23 +1207,22 @@ public final class GroundProver {
       position = NONE;
     }
 
-    private boolean readStatement() {
-      int left = readOne();
-      int sign = left < 0 ? NONE : readSign();
-      int right = sign < 0 ? NONE : readOne();
-      if (right < 0) {
-        return false;
+    private void keepStatement(int left, boolean isEquation, int right) {
+      if (statementCount >= 0 && statementCount < MOST_READ) {
+        lefts[statementCount] = left;
+        rights[statementCount] = right;
+        areEquations[statementCount] = isEquation;
+        statementCount++;
       }
+    }
+
+    private boolean readSemicolon() {
       skipBlanks();
       if (peek() != ';') {
         fail(WRONG_FORM, at);
         return false;
       }
       at++;
-      lefts.set(statementCount, left);
-      rights.set(statementCount, right);
-      equations.set(statementCount, sign);
-      statementCount++;
       return true;
     }
 
@@ -1329,7 +1317,10 @@ public final class GroundProver {
           return fail(WRONG_ARITY, openStarts[last]);
         }
         at++;
-        node = makeOpen(last, arity);
+        int first = MOST_PARTS * last;
+        int b = arity > 1 ? openParts[first + 1] : NONE;
+        int c = arity > 2 ? openParts[first + 2] : NONE;
+        node = store.make(openSymbols[last], openParts[first], b, c);
         openCount = last;
       }
       return node;
@@ -1344,16 +1335,6 @@ public final class GroundProver {
         openParts[MOST_PARTS * last + count] = node;
         openCounts[last] = count + 1;
       }
-    }
-
-    private int makeOpen(int last, int arity) {
-      if (last < 0 || last > MOST_OPEN) {
-        return NONE;
-      }
-      int first = MOST_PARTS * last;
-      int b = arity > 1 ? openParts[first + 1] : NONE;
-      int c = arity > 2 ? openParts[first + 2] : NONE;
-      return store.make(openSymbols[last], openParts[first], b, c);
     }
 
     private int fail(int newKind, int newPosition) {
@@ -1459,20 +1440,20 @@ public final class GroundProver {
     private static final int HUGE = (1 << 20) - 1;
 
     private final Symbols symbols;
-    private final Row owners = new Row();
-    private final Row signs = new Row();
-    private final Row parts = new Row();
-    private final Row waits = new Row();
-    private final Row users = new Row();
-    private final Row nextUsers = new Row();
-    private final Row weights = new Row();
-    private final Row sizes = new Row();
-    private final Row depths = new Row();
-    private final Row heap = new Row();
-    private final Row chosen = new Row();
-    private final Row positions = new Row();
-    private final Row sequence = new Row();
-    private final Row nodes = new Row();
+    private final Row owners = new Row(MOST_LISTED);
+    private final Row signs = new Row(MOST_LISTED);
+    private final Row parts = new Row(MOST_PARTS * MOST_LISTED);
+    private final Row waits = new Row(MOST_LISTED);
+    private final Row users = new Row(MOST_LISTED);
+    private final Row nextUsers = new Row(MOST_PARTS * MOST_LISTED);
+    private final Row weights = new Row(MOST_LISTED);
+    private final Row sizes = new Row(MOST_LISTED);
+    private final Row depths = new Row(MOST_LISTED);
+    private final Row heap = new Row(MOST_LISTED);
+    private final Row chosen = new Row(MOST_LISTED);
+    private final Row positions = new Row(MOST_LISTED);
+    private final Row sequence = new Row(MOST_LISTED);
+    private final Row nodes = new Row(MOST_LISTED);
     private int classCount;
     private int count;
     private int heapCount;
@@ -1506,10 +1487,6 @@ public final class GroundProver {
 
     int owner(int p) {
       return owners.get(p);
-    }
-
-    int sign(int p) {
-      return signs.get(p);
     }
 
     int part(int p, int i) {
@@ -1568,8 +1545,28 @@ public final class GroundProver {
         }
       }
       for (int i = 0; i < count && heapCount > 0; i++) {
-        settle(takeLeast());
+        int p = takeLeast();
+        int c = owners.get(p);
+        sequence.set(i, p);
+        sequenceCount = i + 1;
+        if (chosen.get(c) == NONE) {
+          chosen.set(c, p);
+          positions.set(c, i);
+          for (int use = users.get(c) - 1, n = 0; use >= 0 && n < MOST_PARTS * count; n++) {
+            if (isReadyAfter(use)) {
+              enter(use / MOST_PARTS);
+            }
+            use = nextUsers.get(use) - 1;
+          }
+        }
       }
+    }
+
+    /** Whether the place that is used was the last one for which a production had to wait. */
+    private boolean isReadyAfter(int use) {
+      int p = use / MOST_PARTS;
+      waits.set(p, waits.get(p) - 1);
+      return waits.get(p) == 0;
     }
 
     private void linkUsers() {
@@ -1584,26 +1581,6 @@ public final class GroundProver {
           nextUsers.set(use, users.get(c));
           users.set(c, use + 1);
         }
-      }
-    }
-
-    private void settle(int p) {
-      int c = owners.get(p);
-      sequence.set(sequenceCount, p);
-      sequenceCount++;
-      if (chosen.get(c) != NONE) {
-        return;
-      }
-      chosen.set(c, p);
-      positions.set(c, sequenceCount - 1);
-      int use = users.get(c) - 1;
-      for (int i = 0; i < MOST_PARTS * count && use >= 0; i++) {
-        int q = use / MOST_PARTS;
-        waits.set(q, waits.get(q) - 1);
-        if (waits.get(q) == 0) {
-          enter(q);
-        }
-        use = nextUsers.get(use) - 1;
       }
     }
 
@@ -1711,27 +1688,35 @@ public final class GroundProver {
       nodes.set(c, node);
     }
 
-    /** The least term of one class; the terms of classes that it does not need are not made. */
-    int makeLeastTerm(int c, TermStore store) {
-      for (int i = 0; i < classCount; i++) {
-        waits.set(i, i == c ? 1 : 0);
+    /** From here on no class is needed; which are is said by need and spreadNeeds. */
+    void dropNeeds() {
+      for (int c = 0; c < classCount; c++) {
+        waits.set(c, 0);
       }
-      for (int k = sequenceCount - 1; k >= 0; k--) {
-        int p = sequence.get(k);
-        for (int i = 0; i < arity(p) && isNeeded(p); i++) {
-          waits.set(parts.get(MOST_PARTS * p + i), 1);
-        }
-      }
-      for (int k = 0; k < sequenceCount; k++) {
-        int p = sequence.get(k);
-        if (isNeeded(p)) {
-          nodes.set(owners.get(p), makeTerm(p, store));
-        }
-      }
-      return nodes.get(c);
     }
 
-    private boolean isNeeded(int p) {
+    void need(int c) {
+      waits.set(c, 1);
+    }
+
+    void needParts(int p) {
+      for (int i = 0; i < arity(p); i++) {
+        waits.set(parts.get(MOST_PARTS * p + i), 1);
+      }
+    }
+
+    /** What a least term is made of is needed with it, and comes before it. */
+    void spreadNeeds() {
+      for (int k = sequenceCount - 1; k >= 0; k--) {
+        int p = sequence.get(k);
+        if (isNeeded(p)) {
+          needParts(p);
+        }
+      }
+    }
+
+    /** Whether a production makes the least term of a class that is needed. */
+    boolean isNeeded(int p) {
       int c = owners.get(p);
       return chosen.get(c) == p && waits.get(c) == 1;
     }
@@ -1777,20 +1762,22 @@ public final class GroundProver {
 
   /**
    * The congruence closure over the terms of a walk, which lists arguments before the terms. A class
-   * is named by the first of its terms; this leader is kept for each term, so that it is at hand.
+   * is named by one of its terms, its leader, which is kept for each term, so that it is at hand.
    */
   private static final class Closure {
     private static final int FEWEST_BUCKETS = 64;
-    private static final int MOST_BUCKETS = 4096;
+    private static final int MOST_BUCKETS = 1 << 14;
 
     private final TermStore store;
     private final Walk walk;
-    private final Row leaders = new Row();
-    private final Row nextMembers = new Row();
-    private final Row twins = new Row();
-    private final Row parts = new Row();
-    private final Row buckets = new Row();
-    private final Row links = new Row();
+    private final Row leaders = new Row(MOST_LISTED);
+    private final Row nextMembers = new Row(MOST_LISTED);
+    private final Row memberCounts = new Row(MOST_LISTED);
+    private final Row twins = new Row(MOST_LISTED);
+    private final Row signs = new Row(MOST_LISTED);
+    private final Row parts = new Row(MOST_PARTS * MOST_LISTED);
+    private final Row buckets = new Row(MOST_BUCKETS);
+    private final Row links = new Row(MOST_LISTED);
     private int bucketCount;
 
     Closure(TermStore store, Walk walk) {
@@ -1804,6 +1791,8 @@ public final class GroundProver {
       for (int i = 0; i < walk.count(); i++) {
         leaders.set(i, i);
         nextMembers.set(i, i);
+        memberCounts.set(i, 1);
+        signs.set(i, store.symbol(walk.node(i)));
         for (int k = 0; k < MOST_PARTS; k++) {
           parts.set(MOST_PARTS * i + k, walk.partOf(i, k));
         }
@@ -1817,17 +1806,23 @@ public final class GroundProver {
       return leaders.get(i);
     }
 
+    /** The smaller class takes the leader of the larger one, so that few leaders are set anew. */
     void join(int i, int j) {
-      int first = Math.min(leaders.get(i), leaders.get(j));
-      int second = Math.max(leaders.get(i), leaders.get(j));
+      int first = leaders.get(i);
+      int second = leaders.get(j);
       if (first == second) {
         return;
       }
+      if (memberCounts.get(first) < memberCounts.get(second)) {
+        first = second;
+        second = leaders.get(i);
+      }
       int member = second;
-      for (int n = 0; n < walk.count() && leaders.get(member) == second; n++) {
+      for (int n = 0; n < memberCounts.get(second); n++) {
         leaders.set(member, first);
         member = nextMembers.get(member);
       }
+      memberCounts.set(first, memberCounts.get(first) + memberCounts.get(second));
       int next = nextMembers.get(first);
       nextMembers.set(first, nextMembers.get(second));
       nextMembers.set(second, next);
@@ -1849,9 +1844,12 @@ public final class GroundProver {
       }
       for (int i = 0; i < walk.count(); i++) {
         int bucket = bucketOf(i);
-        int twin = twinOf(i, bucket);
-        twins.set(i, twin == NONE ? 0 : 1);
-        if (twin == NONE) {
+        int twin = buckets.get(bucket) - 1;
+        for (int n = 0; n < walk.count() && twin >= 0 && !areTwins(i, twin); n++) {
+          twin = links.get(twin) - 1;
+        }
+        twins.set(i, twin < 0 ? 0 : 1);
+        if (twin < 0) {
           links.set(i, buckets.get(bucket));
           buckets.set(bucket, i + 1);
         } else if (leaders.get(twin) != leaders.get(i)) {
@@ -1863,8 +1861,8 @@ public final class GroundProver {
     }
 
     private int bucketOf(int i) {
-      int hash = store.symbol(walk.node(i));
-      for (int k = 0; k < store.arity(walk.node(i)); k++) {
+      int hash = signs.get(i);
+      for (int k = 0; k < MOST_PARTS; k++) {
         hash = hash * 8191 + leaders.get(parts.get(MOST_PARTS * i + k));
       }
       hash *= 0x2c1b3c6d;
@@ -1872,29 +1870,15 @@ public final class GroundProver {
       return hash & (bucketCount - 1);
     }
 
-    private int twinOf(int i, int bucket) {
-      int j = buckets.get(bucket) - 1;
-      for (int n = 0; n < walk.count() && j >= 0; n++) {
-        if (areTwins(i, j)) {
-          return j;
-        }
-        j = links.get(j) - 1;
-      }
-      return NONE;
-    }
-
     private boolean areTwins(int i, int j) {
-      int symbol = store.symbol(walk.node(i));
-      if (symbol != store.symbol(walk.node(j))) {
-        return false;
+      boolean areAlike = signs.get(i) == signs.get(j);
+      // Terms with the same symbol lack the same arguments, so what stands there does not matter.
+      for (int k = 0; k < MOST_PARTS && areAlike; k++) {
+        areAlike =
+            leaders.get(parts.get(MOST_PARTS * i + k))
+                == leaders.get(parts.get(MOST_PARTS * j + k));
       }
-      for (int k = 0; k < store.arity(walk.node(i)); k++) {
-        if (leaders.get(parts.get(MOST_PARTS * i + k))
-            != leaders.get(parts.get(MOST_PARTS * j + k))) {
-          return false;
-        }
-      }
-      return true;
+      return areAlike;
     }
 
     void pourInto(Grammar grammar) {
@@ -1932,6 +1916,7 @@ public final class GroundProver {
     // Each rule needs an equation of its own: to join two classes makes at most one rule more.
     private final int[] ruleLefts = new int[MOST_STATEMENTS];
     private final int[] ruleRights = new int[MOST_STATEMENTS];
+    private final Row ruleHints = new Row(MOST_NODES);
     int ruleCount;
 
     Theory(Symbols symbols, TermStore store, Walk walk, Grammar grammar) {
@@ -1950,15 +1935,29 @@ public final class GroundProver {
       return i >= 0 && i < MOST_STATEMENTS ? ruleRights[i] : NONE;
     }
 
-    int addStatement(boolean isEquation, int left, int right) {
-      if ((isEquation ? equationCount : separationCount) >= MOST_STATEMENTS) {
-        return TOO_MANY;
+    /** How many statements there are, or why they cannot be added; then none of them is. */
+    int addRead(Reader reader) {
+      int equations = equationCount;
+      int separations = separationCount;
+      int outcome = 0;
+      for (int i = 0; i < reader.statementCount() && outcome >= 0; i++) {
+        boolean isEquation = reader.isEquation(i);
+        if ((isEquation ? equationCount : separationCount) >= MOST_STATEMENTS) {
+          outcome = TOO_MANY;
+        } else if (!isEquation) {
+          addSeparation(reader.leftTerm(i), reader.rightTerm(i));
+        } else {
+          appendEquation(reader.leftTerm(i), reader.rightTerm(i));
+          outcome = complete() ? 0 : TOO_LARGE;
+        }
       }
-      if (!isEquation) {
-        addSeparation(left, right);
-        return 0;
+      if (outcome < 0) {
+        equationCount = equations;
+        separationCount = separations;
+        complete();
+        return outcome;
       }
-      return addEquation(left, right) ? 0 : TOO_LARGE;
+      return reader.statementCount();
     }
 
     void addSeparation(int left, int right) {
@@ -1969,13 +1968,17 @@ public final class GroundProver {
       }
     }
 
-    boolean addEquation(int left, int right) {
-      if (equationCount < 0 || equationCount >= MOST_STATEMENTS) {
-        return false;
+    private void appendEquation(int left, int right) {
+      if (equationCount >= 0 && equationCount < MOST_STATEMENTS) {
+        equationLefts[equationCount] = left;
+        equationRights[equationCount] = right;
+        equationCount++;
       }
-      equationLefts[equationCount] = left;
-      equationRights[equationCount] = right;
-      equationCount++;
+    }
+
+    /** False if a rule would be too large; then the equation is not added. */
+    boolean addEquation(int left, int right) {
+      appendEquation(left, right);
       boolean isAdded = complete();
       if (!isAdded) {
         equationCount--;
@@ -1992,24 +1995,21 @@ public final class GroundProver {
     }
 
     void closeLevel() {
-      if (levelCount > 0 && levelCount <= MOST_LEVELS) {
-        levelCount--;
-        goBack(levelEquations[levelCount], levelSeparations[levelCount]);
+      if (levelCount <= 0 || levelCount > MOST_LEVELS) {
+        return;
       }
-    }
-
-    void goBack(int equations, int separations) {
-      boolean isOther = equationCount != equations;
-      equationCount = equations;
-      separationCount = separations;
-      if (isOther) {
+      levelCount--;
+      separationCount = levelSeparations[levelCount];
+      if (equationCount != levelEquations[levelCount]) {
+        equationCount = levelEquations[levelCount];
         complete();
       }
     }
 
     /** Finds the rules of the equations; the old ones stay if one of the new ones is too large. */
     private boolean complete() {
-      close(NONE, NONE, NONE);
+      gather(NONE, NONE, NONE);
+      closure.close();
       closure.pourInto(grammar);
       grammar.rank(symbols.orderMode());
       for (int k = 0; k < grammar.sequenceCount(); k++) {
@@ -2023,8 +2023,8 @@ public final class GroundProver {
       return true;
     }
 
-    /** Closes all equations but one; the terms s and t take part. NONE stands for none of them. */
-    private void close(int excepted, int s, int t) {
+    /** Joins the terms of all equations but one; the terms s and t take part. NONE stands for none. */
+    private void gather(int excepted, int s, int t) {
       walk.clear();
       for (int e = 0; e < equationCount && e < MOST_STATEMENTS; e++) {
         if (e != excepted) {
@@ -2040,7 +2040,6 @@ public final class GroundProver {
           closure.join(walk.indexOf(equationLefts[e]), walk.indexOf(equationRights[e]));
         }
       }
-      closure.close();
     }
 
     private boolean isTooLargeSide(int p) {
@@ -2048,24 +2047,39 @@ public final class GroundProver {
     }
 
     private void takeRules() {
+      grammar.dropNeeds();
+      for (int k = 0; k < grammar.sequenceCount(); k++) {
+        int p = grammar.ranked(k);
+        if (grammar.choice(grammar.owner(p)) != p) {
+          grammar.need(grammar.owner(p));
+          grammar.needParts(p);
+        }
+      }
+      grammar.spreadNeeds();
       ruleCount = 0;
       for (int k = 0; k < grammar.sequenceCount(); k++) {
         int p = grammar.ranked(k);
         int c = grammar.owner(p);
-        int node = grammar.makeTerm(p, store);
-        if (grammar.choice(c) == p) {
-          grammar.setLeastTerm(c, node);
-        } else if (ruleCount < MOST_STATEMENTS) {
-          ruleLefts[ruleCount] = node;
-          ruleRights[ruleCount] = grammar.leastTerm(c);
-          store.setTag(node, ruleCount);
-          ruleCount++;
+        if (grammar.isNeeded(p)) {
+          grammar.setLeastTerm(c, grammar.makeTerm(p, store));
+        } else if (grammar.choice(c) != p) {
+          addRule(grammar.makeTerm(p, store), grammar.leastTerm(c));
         }
       }
     }
 
+    private void addRule(int left, int right) {
+      if (ruleCount >= 0 && ruleCount < MOST_STATEMENTS) {
+        ruleLefts[ruleCount] = left;
+        ruleRights[ruleCount] = right;
+        ruleHints.set(left, ruleCount);
+        ruleCount++;
+      }
+    }
+
+    /** A hint may be left from earlier rules, so the rule itself must say that it is the one. */
     private int ruleFor(int node) {
-      int i = store.tag(node);
+      int i = ruleHints.get(node);
       return i >= 0 && i < ruleCount && i < MOST_STATEMENTS && ruleLefts[i] == node ? i : NONE;
     }
 
@@ -2087,13 +2101,14 @@ public final class GroundProver {
     }
 
     boolean makesEqualWithout(int e, int s, int t) {
-      close(e, s, t);
+      gather(e, s, t);
+      closure.close();
       return closure.leader(walk.indexOf(s)) == closure.leader(walk.indexOf(t));
     }
 
     int firstConflict() {
       for (int i = 0; i < separationCount && i < MOST_STATEMENTS; i++) {
-        if (makesEqual(separationLefts[i], separationRights[i])) {
+        if (normalize(separationLefts[i]) == normalize(separationRights[i])) {
           return i;
         }
       }
@@ -2155,8 +2170,8 @@ public final class GroundProver {
   }
 
   /**
-   * Answers about the class of a term. Classes are known by their normal forms: a term belongs to a
-   * class if, with normal arguments, it is the normal form or a left side whose right side that is.
+   * Answers about the class of a normal form. A term belongs to it if, with normal arguments, it is
+   * this normal form or a left side whose right side that is.
    */
   private static final class ClassSearch {
     private final Theory theory;
@@ -2172,12 +2187,11 @@ public final class GroundProver {
       this.grammar = grammar;
     }
 
-    /** Puts the class of a term, as class 0, and all that it is made of into the grammar. */
-    private void gather(int t) {
-      int root = theory.normalize(t);
+    /** Puts the class of a normal form, as class 0, and all that it is made of into the grammar. */
+    private void gather(int normal) {
       walk.clear();
-      walk.append(root);
-      for (int i = 0; i < walk.count() && i < TermStore.MOST_NODES; i++) {
+      walk.append(normal);
+      for (int i = 0; i < walk.count() && i < MOST_LISTED; i++) {
         int node = walk.node(i);
         appendParts(node);
         for (int r = 0; r < theory.ruleCount; r++) {
@@ -2211,14 +2225,14 @@ public final class GroundProver {
       }
     }
 
-    boolean hasFiniteClass(int t) {
-      gather(t);
+    boolean hasFiniteClass(int normal) {
+      gather(normal);
       return grammar.isFiniteClass(0);
     }
 
     /** NONE if the term that is sought is too large. */
-    int leastOfSmallest(int t) {
-      gather(t);
+    int leastOfSmallest(int normal) {
+      gather(normal);
       grammar.rank(BY_SIZE);
       grammar.keepSmallest();
       grammar.rank(theory.symbols.orderMode());
@@ -2226,11 +2240,20 @@ public final class GroundProver {
       if (grammar.termSize(p) > LARGEST_TERM || grammar.termDepth(p) > DEEPEST_TERM) {
         return NONE;
       }
-      return grammar.makeLeastTerm(0, store);
+      grammar.dropNeeds();
+      grammar.need(0);
+      grammar.spreadNeeds();
+      for (int k = 0; k < grammar.sequenceCount(); k++) {
+        int q = grammar.ranked(k);
+        if (grammar.isNeeded(q)) {
+          grammar.setLeastTerm(grammar.owner(q), grammar.makeTerm(q, store));
+        }
+      }
+      return grammar.leastTerm(0);
     }
 
-    long countEqual(int t, int n) {
-      gather(t);
+    long countEqual(int normal, int n) {
+      gather(normal);
       int needed = walk.count() * (MOST_COUNTED + 1);
       if (needed > counts.length) {
         counts = new long[Math.max(needed, 2 * counts.length)];
@@ -2293,10 +2316,10 @@ public final class GroundProver {
     private final TermStore store;
     private final Walk walk;
     private final Grammar grammar;
-    private final Row found = new Row();
+    private final Row found = new Row(MOST_VARIABLES * (MOST_SOLUTIONS + 1));
     private int foundCount;
     private int foundVariables;
-    private final Row kept = new Row();
+    private final Row kept = new Row(MOST_VARIABLES * (MOST_SOLUTIONS + 1));
     int keptCount;
     private int keptVariables;
     private final int[] bindings = new int[MOST_VARIABLES];
@@ -2320,7 +2343,7 @@ public final class GroundProver {
       return kept.get(MOST_VARIABLES * k + ordinal);
     }
 
-    /** The number of solutions, which are kept unless they are too many. */
+    /** The number of solutions, of which those beyond the limit and one more are left out. */
     int solve(int pattern, int t) {
       int node = theory.normalize(t);
       // Only ground subterms of the pattern change: no rule says anything of a variable.
@@ -2337,9 +2360,6 @@ public final class GroundProver {
       goalCount = 0;
       if (agrees(normal, node)) {
         solveFrom(0);
-      }
-      if (foundCount <= MOST_SOLUTIONS) {
-        keepFound();
       }
       return foundCount;
     }
@@ -2408,8 +2428,13 @@ public final class GroundProver {
       return true;
     }
 
-    private void keepFound() {
-      rankFound();
+    void keepFound() {
+      walk.clear();
+      for (int i = 0; i < MOST_VARIABLES * foundCount; i++) {
+        walk.add(found.get(i));
+      }
+      grammar.takeTerms(walk, store);
+      grammar.rank(theory.symbols.orderMode());
       for (int k = 0; k < foundCount && k < MOST_SOLUTIONS; k++) {
         insertKey(k, keyOf(k));
       }
@@ -2421,15 +2446,6 @@ public final class GroundProver {
       }
       keptCount = foundCount;
       keptVariables = foundVariables;
-    }
-
-    private void rankFound() {
-      walk.clear();
-      for (int i = 0; i < MOST_VARIABLES * foundCount; i++) {
-        walk.add(found.get(i));
-      }
-      grammar.takeTerms(walk, store);
-      grammar.rank(theory.symbols.orderMode());
     }
 
     private int shiftOf(int v) {
