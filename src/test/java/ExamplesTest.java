@@ -1,0 +1,62 @@
+/** The five examples of the document. */
+public final class ExamplesTest {
+  public static void main(String[] args) {
+    new Script("example 1")
+        .text("a").due("0", "declare", 0, 1)
+        .text("f").due("1", "declare", 1, 1)
+        .text("f(f(f(a)))").due("0", "read")
+        .text("a").due("1", "read")
+        .due("0", "equate", 0, 1)
+        .text("f(f(f(f(f(a)))))").due("2", "read")
+        .due("1", "equate", 2, 1)
+        .text("f(a)").due("3", "read")
+        .due("1", "areEqual", 3, 1)
+        .due("1", "ruleCount")
+        .due("3", "ruleLeft", 0)
+        .due("5", "stepCount", 2);
+    new Script("example 2")
+        .text("a").due("0", "declare", 0, 1)
+        .text("b").due("1", "declare", 0, 1)
+        .text("g").due("2", "declare", 2, 1)
+        .text("x").due("3", "declareVariable")
+        .text("g(a, b) = b; g(b, a) = b;").due("2", "readTheory")
+        .text("g(x, a)").due("0", "read")
+        .text("b").due("1", "read")
+        .due("1", "match", 0, 1)
+        .due("1", "solution", 0, 3)
+        .due("throws IndexOutOfBoundsException", "write", 2)
+        .due("throws IndexOutOfBoundsException", "outputByte", 0);
+    new Script("example 3")
+        .text("c").due("0", "declare", 0, 1)
+        .text("f").due("1", "declare", 1, 1)
+        .text("f(c, c)").due("throws IllegalArgumentException", "read")
+        .due("5", "errorKind")
+        .due("0", "errorPosition")
+        .text("f c").due("throws IllegalArgumentException", "read")
+        .due("5", "errorKind")
+        .due("0", "errorPosition");
+    new Script("example 4")
+        .text("a").due("0", "declare", 0, 1)
+        .text("b").due("1", "declare", 0, 1)
+        .text("a != b;").due("1", "readTheory")
+        .due("1", "push")
+        .text("a = b;").due("1", "readTheory")
+        .due("0", "isConsistent")
+        .due("0", "conflict")
+        .due("0", "pop")
+        .due("1", "isConsistent")
+        .due("0", "equationCount")
+        .due("throws IllegalStateException", "pop");
+    new Script("example 5")
+        .text("a").due("0", "declare", 0, 1)
+        .text("f").due("1", "declare", 1, 1)
+        .text("a").due("0", "read")
+        .due("1", "term", 1, 0, 0, 0)
+        .due("0", "equate", 0, 1)
+        .due("0", "isFinite", 0)
+        .due("1", "countOfSize", 0, 4)
+        .due("0", "smallest", 1)
+        .due("throws IllegalStateException", "orderByWeight", 1);
+    Script.end("ExamplesTest");
+  }
+}
