@@ -562,7 +562,6 @@ public final class GroundProver {
     if (!store.isCrowded()) {
       return;
     }
-    store.startMarking();
     for (int i = 0; i < numberedCount; i++) {
       store.mark(numbered.get(i));
     }
@@ -759,7 +758,7 @@ public final class GroundProver {
    */
   private static final class TermStore {
     private static final int BUCKETS = 1 << 15;
-    private static final int ROOMY = 20000;
+    private static final int ROOMY = 4096;
     private static final int MOST_WIDTH = (1 << 22) - 1;
     private static final int MOST_HEIGHT = 255;
     private static final int MARKED = -1;
@@ -863,7 +862,6 @@ public final class GroundProver {
       parts.set(MOST_PARTS * node, a);
       parts.set(MOST_PARTS * node + 1, b);
       parts.set(MOST_PARTS * node + 2, c);
-      numbers.set(node, 0);
       int open = symbols.variableOrdinal(symbol) == NONE ? 0 : 1;
       extents.set(node, extentOver(open, extents.get(a), extents.get(b), extents.get(c)));
       links.set(node, buckets.get(bucket));
@@ -883,13 +881,7 @@ public final class GroundProver {
       return used > crowd;
     }
 
-    /** From here until dropUnmarked the links are marks, as the buckets are made anew then. */
-    void startMarking() {
-      for (int node = 0; node < top; node++) {
-        links.set(node, 0);
-      }
-    }
-
+    /** Until dropUnmarked the links are no use but as marks, as the buckets are made anew then. */
     void mark(int root) {
       pendingCount = 0;
       markOne(root);

@@ -8,6 +8,7 @@ public final class ClassTest {
   public static void main(String[] args) {
     countOfSize();
     countOfSizeLarge();
+    countOfSizeInManyClasses();
     isFinite();
     smallest();
     smallestTooLarge();
@@ -67,6 +68,33 @@ public final class ClassTest {
       s.due("" + count, "countOfSize", 0, n);
       count *= 22;
     }
+  }
+
+  private static void countOfSizeInManyClasses() {
+    // The class of c has terms of each size, too.
+    signature("promise 42, other classes").theory("f(c) = c;", 1).reads("g(c,c)", 0)
+        .due("10", "countOfSize", 0, 12).due("1", "countOfSize", 0, 3);
+    Script s = new Script("promise 42, many classes").symbol("a", 0).symbol("c", 0).symbol("g", 2);
+    for (int i = 3; i < 24; i++) {
+      s.symbol("u" + i, 1);
+    }
+    StringBuilder text = new StringBuilder();
+    for (int i = 0; i < 30; i++) {
+      text.append("g(").append(threeDeep(i)).append(",").append(threeDeep(i + 7)).append(")=a;");
+      if (i % 6 == 5) {
+        s.theory(text.toString(), 6);
+        text.setLength(0);
+      }
+    }
+    s.reads("a", 0).reads("u3(a)", 1);
+    for (int n = 1; n <= 12; n++) {
+      s.due(n == 9 ? "30" : n == 1 ? "1" : "0", "countOfSize", 0, n)
+          .due(n == 10 ? "30" : n == 2 ? "1" : "0", "countOfSize", 1, n);
+    }
+  }
+
+  private static String threeDeep(int i) {
+    return "u" + (3 + i % 21) + "(u" + (3 + i / 2 % 21) + "(u" + (3 + i % 5) + "(c)))";
   }
 
   private static void isFinite() {

@@ -126,6 +126,8 @@ public final class InputTest {
         .reads("f(y)", 0).reads("f(a)", 1)
         .refused(ARGUMENT, "equate", 0, 1).refused(ARGUMENT, "separate", 1, 0)
         .due("2", "size", 0);
+    new Script("promise 5, the first symbol").variable("x").symbol("f", 1).reads("f(x)", 0)
+        .refused(ARGUMENT, "equate", 0, 0).error("x=x;", "readTheory", 3, 0);
     Script full = new Script("promise 5, all symbols").variable("x");
     for (int i = 1; i < 24; i++) {
       full.symbol("n" + i, 0);
@@ -198,6 +200,9 @@ public final class InputTest {
         .due("1", "compare", 0, 1).due("-1", "compare", 2, 3)
         .refused(STATE, "setDirection", 2, 0).refused(INDEX, "setDirection", 4, 0)
         .symbol("q", 2).refused(STATE, "setDirection", 4, 1);
+    new Script("promise 10, the first symbol").symbol("g", 2).symbol("a", 0).symbol("b", 0)
+        .due("0", "setDirection", 0, 1).due("1", "setDirection", 0, 1)
+        .reads("g(a,b)", 0).reads("g(b,a)", 1).due("1", "compare", 0, 1);
   }
 
   private static void whatFixesTheOrder() {

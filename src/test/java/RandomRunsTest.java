@@ -95,6 +95,10 @@ public final class RandomRunsTest {
     if (chance(30)) {
       call("orderByWeight", 1);
     }
+    if (run % 16 == 15) {
+      goByGarbage();
+      return;
+    }
     if (profile == TABLE) {
       goByTable();
       return;
@@ -233,6 +237,50 @@ public final class RandomRunsTest {
       t = made.startsWith("throws") ? t : parsed(made);
     }
     return t;
+  }
+
+  /**
+   * Terms that are too large are made between calls of all kinds, each time others, so that there are
+   * soon many terms in the store that nobody needs.
+   */
+  private void goByGarbage() {
+    for (int i = 0; i < 12; i++) {
+      type("" + (char) ('a' + i));
+      call("declare", i < 3 ? 0 : i < 11 ? 1 : 2, 1 + below(2));
+    }
+    declareVariables(2);
+    for (int i = 0; i < 3; i++) {
+      call("term", i, 0, 0, 0);
+    }
+    int t = parsed(call("term", 11, 0, parsed(call("term", 11, 1, 2, 0)), 0));
+    for (int i = 0; i < 5; i++) {
+      int shifted = t;
+      for (int k = 0; k < 3; k++) {
+        int inner = parsed(call("term", 3 + i, k, 0, 0));
+        shifted = parsed(call("replace", shifted, k, inner));
+      }
+      t = parsed(call("term", 11, t, shifted, 0));
+    }
+    int side = parsed(call("afterSteps", t, 0));
+    while (!naive.numbered.isEmpty() && naive.numbered.get(side).size > 150) {
+      side = parsed(call("argument", side, 0));
+    }
+    while (calls < MOST_CALLS - 12 && !isWrong) {
+      side = parsed(call("term", 3 + below(8), side, 0, 0));
+      if (naive.numbered.get(side).depth > 40) {
+        side = parsed(call("argument", t, below(2)));
+      }
+      for (int i = 0; i < 4; i++) {
+        call("replace", t, i % 3, side);
+      }
+      if (chance(50)) {
+        anyCall(0);
+      }
+      if (chance(10)) {
+        call("equate", below(12), anyGround());
+        matchOne();
+      }
+    }
   }
 
   /** A term that is as large as can be, and an equation that makes a constant equal to one. */

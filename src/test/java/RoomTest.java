@@ -15,6 +15,8 @@ import java.util.Map;
 public final class RoomTest {
   private static final int MOST_OBJECTS = 600_000;
   private static final long MOST_CELLS = 7_300_000;
+  // Where no term stays, not many have to be held at the same time.
+  private static final long FEW_CELLS = 200_000;
 
   private final String name;
   private final GroundProver prover = new GroundProver();
@@ -25,11 +27,12 @@ public final class RoomTest {
   }
 
   public static void main(String[] args) throws IllegalAccessException {
-    boolean isWithin = new RoomTest("a new object").isWithinRoom();
+    boolean isWithin = new RoomTest("a new object").isWithinRoom(FEW_CELLS);
     isWithin &= manyLargeTerms();
     isWithin &= manyLargeEquations();
     isWithin &= manyLargeNormalForms();
     isWithin &= manySolutions();
+    isWithin &= manyTermsDropped();
     System.out.println("RoomTest: " + (isWithin ? "within its room" : "beyond its room"));
     if (!isWithin) {
       System.exit(1);
@@ -101,7 +104,7 @@ public final class RoomTest {
       }
     }
     test.ask("compare", t, t + 1);
-    return test.isWithinRoom();
+    return test.isWithinRoom(MOST_CELLS);
   }
 
   private static boolean manyLargeEquations() throws IllegalAccessException {
@@ -127,7 +130,7 @@ public final class RoomTest {
       test.ask("smallest", large.get(test.calls % 8));
       test.ask("pop");
     }
-    return test.isWithinRoom();
+    return test.isWithinRoom(MOST_CELLS);
   }
 
   /** Constants whose normal forms have 300 different subterms. */
@@ -154,7 +157,7 @@ public final class RoomTest {
       test.ask("afterSteps", terms.get(i % 10), 1 + i % 3);
       test.ask("smallest", terms.get(i % 10));
     }
-    return test.isWithinRoom();
+    return test.isWithinRoom(MOST_CELLS);
   }
 
   private static boolean manySolutions() throws IllegalAccessException {
@@ -181,10 +184,29 @@ public final class RoomTest {
       test.ask("match", pattern, t);
       test.ask("solution", test.calls % 343, 21 + test.calls % 3);
     }
-    return test.isWithinRoom();
+    return test.isWithinRoom(MOST_CELLS);
   }
 
-  private boolean isWithinRoom() throws IllegalAccessException {
+  private static boolean manyTermsDropped() throws IllegalAccessException {
+    RoomTest test = new RoomTest("many terms dropped");
+    test.declareAll();
+    test.makeConstants();
+    int t = test.grown(6);
+    int side = t;
+    while (test.answer("size", side) > 100) {
+      side = test.answer("argument", side, 0);
+    }
+    for (int i = 0; test.calls < 508; i++) {
+      if (i % 36 == 0) {
+        side = test.answer("term", 8 + i / 36, side, 0, 0);
+      }
+      int other = test.answer("term", 8 + i % 12, i % 3, 0, 0);
+      test.ask("replace", t, i % 3, test.answer("term", 20, side, other, 0));
+    }
+    return test.isWithinRoom(FEW_CELLS);
+  }
+
+  private boolean isWithinRoom(long mostCells) throws IllegalAccessException {
     Map<Object, Boolean> seen = new IdentityHashMap<>();
     ArrayDeque<Object> open = new ArrayDeque<>();
     open.add(prover);
@@ -215,6 +237,6 @@ public final class RoomTest {
     }
     System.out.println(name + ": after " + calls + " calls " + seen.size() + " objects, " + cells
         + " fields and elements, terms with a number: " + prover.termCount());
-    return seen.size() <= MOST_OBJECTS && cells <= MOST_CELLS;
+    return seen.size() <= MOST_OBJECTS && cells <= mostCells;
   }
 }
