@@ -16,7 +16,7 @@ public final class RoomTest {
   private static final int MOST_OBJECTS = 600_000;
   private static final long MOST_CELLS = 7_300_000;
   // Where no term stays, not many have to be held at the same time.
-  private static final long FEW_CELLS = 200_000;
+  private static final long FEW_CELLS = 120_000;
 
   private final String name;
   private final GroundProver prover = new GroundProver();

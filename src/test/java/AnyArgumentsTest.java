@@ -1,0 +1,117 @@
+import java.util.List;
+import java.util.Map;
+
+/**
+ * Calls with arguments from one end of int to the other, in many states: each call answers or throws
+ * one of the exceptions that the document lists for it, and none that the Java machine makes.
+ */
+public final class AnyArgumentsTest {
+  private static final String I = "throws IndexOutOfBoundsException";
+  private static final String A = "throws IllegalArgumentException";
+  private static final String S = "throws IllegalStateException";
+  private static final String R = "throws ArithmeticException";
+  private static final String N = "throws NoSuchElementException";
+
+  private static final Map<String, List<String>> LISTED = Map.ofEntries(
+      Map.entry("feed", List.of(S)), Map.entry("trim", List.of(A)),
+      Map.entry("declare", List.of(A, S)), Map.entry("declareVariable", List.of(A, S)),
+      Map.entry("symbolCount", List.of()), Map.entry("orderByWeight", List.of(S)),
+      Map.entry("promote", List.of(I, S)), Map.entry("rankOf", List.of(I)),
+      Map.entry("setDirection", List.of(I, S)), Map.entry("term", List.of(I, R)),
+      Map.entry("read", List.of(A)), Map.entry("errorKind", List.of()),
+      Map.entry("errorPosition", List.of()), Map.entry("termCount", List.of()),
+      Map.entry("symbolOf", List.of(I)), Map.entry("argument", List.of(I)),
+      Map.entry("size", List.of(I)), Map.entry("depth", List.of(I)),
+      Map.entry("compare", List.of(I)), Map.entry("occurrences", List.of(I)),
+      Map.entry("replace", List.of(I, R)), Map.entry("write", List.of(I, R)),
+      Map.entry("outputByte", List.of(I)), Map.entry("equate", List.of(I, A, S, R)),
+      Map.entry("separate", List.of(I, A, S)), Map.entry("readTheory", List.of(A, S, R)),
+      Map.entry("equationCount", List.of()), Map.entry("separationCount", List.of()),
+      Map.entry("isConsistent", List.of()), Map.entry("conflict", List.of(N)),
+      Map.entry("push", List.of(S)), Map.entry("pop", List.of(S)),
+      Map.entry("ruleCount", List.of()), Map.entry("ruleLeft", List.of(I)),
+      Map.entry("ruleRight", List.of(I)), Map.entry("normalForm", List.of(I, R)),
+      Map.entry("areEqual", List.of(I)), Map.entry("dependsOn", List.of(I)),
+      Map.entry("stepCount", List.of(I)), Map.entry("afterSteps", List.of(I, R)),
+      Map.entry("countOfSize", List.of(I, A)), Map.entry("isFinite", List.of(I)),
+      Map.entry("smallest", List.of(I, R)), Map.entry("match", List.of(I, A, R)),
+      Map.entry("solution", List.of(I, N, R)), Map.entry("digest", List.of()));
+
+  private static final int[] ENDS = {
+    Integer.MIN_VALUE, Integer.MIN_VALUE + 1, -65536, -256, -2, -1, 23, 24, 30, 255, 256, 400, 401,
+    512, 1000, 2000, 65536, 1 << 20, 1 << 24, Integer.MAX_VALUE - 1, Integer.MAX_VALUE
+  };
+
+  private static long state = 88172645463325252L;
+  private static int wrong;
+
+  private static int below(int bound) {
+    state ^= state << 13;
+    state ^= state >>> 7;
+    state ^= state << 17;
+    return (int) ((state >>> 33) % bound);
+  }
+
+  private static int anyArgument() {
+    return below(4) == 0 ? ENDS[below(ENDS.length)] : below(below(3) == 0 ? 40 : 5);
+  }
+
+  private static void call(GroundProver prover, String op, int... arguments) {
+    String got = Calls.ask(prover, op, arguments);
+    if (got.startsWith("throws") && !LISTED.get(op).contains(got)) {
+      wrong++;
+      System.out.println(op + java.util.Arrays.toString(arguments) + " " + got);
+    }
+  }
+
+  private static void type(GroundProver prover, String text) {
+    for (int i = 0; i < text.length() || i == 0; i += 20) {
+      int[] words = new int[5];
+      for (int k = 0; k < 20; k++) {
+        words[k / 4] = words[k / 4] << 8 | (i + k < text.length() ? text.charAt(i + k) : ' ');
+      }
+      call(prover, "feed", words);
+    }
+    call(prover, "trim", text.length());
+  }
+
+  public static void main(String[] args) {
+    String[] ops = LISTED.keySet().stream().sorted().toArray(String[]::new);
+    String[] symbols = {"a", "b", "f", "g", "h"};
+    for (int run = 0; run < 60; run++) {
+      GroundProver prover = new GroundProver();
+      for (int i = 0; i < below(6); i++) {
+        type(prover, symbols[i % 5]);
+        call(prover, "declare", i < 2 ? 0 : i - 1, 1);
+      }
+      for (int i = 0; i < below(4); i++) {
+        type(prover, "v" + i);
+        call(prover, "declareVariable");
+      }
+      for (int i = 0; i < 600; i++) {
+        anyCall(prover, ops);
+      }
+    }
+    System.out.println("AnyArgumentsTest: " + wrong + " not as due");
+    if (wrong != 0) {
+      System.exit(1);
+    }
+  }
+
+  private static void anyCall(GroundProver prover, String[] ops) {
+    int kind = below(10);
+    if (kind == 0) {
+      call(prover, "term", below(8), below(5), below(5), below(5));
+    } else if (kind == 1) {
+      String[] texts = {"a", "f(a)", "g(v0,f(b))", "h(v0,v1,v2)", "g(a,b)=f(a);", "a!=b;b=f(b);"};
+      type(prover, texts[below(texts.length)]);
+      call(prover, below(2) == 0 ? "read" : "readTheory");
+    } else {
+      int[] arguments = new int[5];
+      for (int i = 0; i < 5; i++) {
+        arguments[i] = anyArgument();
+      }
+      call(prover, ops[below(ops.length)], arguments);
+    }
+  }
+}
