@@ -557,7 +557,7 @@ public final class GroundProver {
     return number;
   }
 
-  /** Between two calls only these terms are needed; all others may go when the store is crowded. */
+  /** Only these terms are needed when a call begins; all others may go when the store is crowded. */
   private void tidy() {
     if (!store.isCrowded()) {
       return;
@@ -578,7 +578,7 @@ public final class GroundProver {
     private final int[][] blocks;
 
     Row(int mostCells) {
-      blocks = new int[(Math.max(mostCells, 1) - 1 >> BLOCK_BITS) + 1][];
+      blocks = new int[(Math.max(mostCells, 0) >> BLOCK_BITS) + 1][];
     }
 
     int get(int i) {

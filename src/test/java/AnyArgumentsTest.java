@@ -65,11 +65,7 @@ public final class AnyArgumentsTest {
   }
 
   private static void type(GroundProver prover, String text) {
-    for (int i = 0; i < text.length() || i == 0; i += 20) {
-      int[] words = new int[5];
-      for (int k = 0; k < 20; k++) {
-        words[k / 4] = words[k / 4] << 8 | (i + k < text.length() ? text.charAt(i + k) : ' ');
-      }
+    for (int[] words : Calls.feeds(text)) {
       call(prover, "feed", words);
     }
     call(prover, "trim", text.length());

@@ -1,122 +1,60 @@
-import java.util.NoSuchElementException;
+import java.lang.reflect.InvocationTargetException;
+import java.lang.reflect.Method;
+import java.lang.reflect.Modifier;
+import java.util.HashMap;
+import java.util.Map;
 
-/** Calls by name, with answers as texts (a boolean counts 1 or 0), of both kinds of prover. */
+/** Calls by name, of both kinds of prover; an answer is a text (a boolean counts 1 or 0). */
 final class Calls {
+  private static final Map<Class<?>, Map<String, Method>> FACES = new HashMap<>();
+
   private Calls() {}
 
-  static String ask(GroundProver p, String op, int... a) {
+  /** Arguments that the call does not have are left out. */
+  static String ask(Object prover, String op, int... arguments) {
+    Method method = FACES.computeIfAbsent(prover.getClass(), Calls::faceOf).get(op);
+    if (method == null) {
+      throw new Error("no such call: " + op);
+    }
+    Class<?>[] types = method.getParameterTypes();
+    Object[] given = new Object[types.length];
+    for (int i = 0; i < types.length; i++) {
+      if (types[i] == boolean.class) {
+        given[i] = arguments[i] == 1;
+      } else {
+        given[i] = arguments[i];
+      }
+    }
     try {
-      return "" + answer(p, op, a);
-    } catch (IndexOutOfBoundsException
-        | IllegalArgumentException
-        | IllegalStateException
-        | ArithmeticException
-        | NoSuchElementException e) {
-      return "throws " + e.getClass().getSimpleName();
+      Object answer = method.invoke(prover, given);
+      return answer instanceof Boolean ? (Boolean) answer ? "1" : "0" : answer == null ? null : "" + answer;
+    } catch (InvocationTargetException e) {
+      if (e.getCause() instanceof RuntimeException) {
+        return "throws " + e.getCause().getClass().getSimpleName();
+      }
+      throw new Error(op, e.getCause());
+    } catch (IllegalAccessException e) {
+      throw new Error(e);
     }
   }
 
-  private static long answer(GroundProver p, String op, int... a) {
-    switch (op) {
-      case "feed": return p.feed(a[0], a[1], a[2], a[3], a[4]);
-      case "trim": return p.trim(a[0]);
-      case "declare": return p.declare(a[0], a[1]);
-      case "declareVariable": return p.declareVariable();
-      case "symbolCount": return p.symbolCount();
-      case "orderByWeight": return p.orderByWeight(a[0] == 1) ? 1 : 0;
-      case "promote": return p.promote(a[0], a[1]);
-      case "rankOf": return p.rankOf(a[0]);
-      case "setDirection": return p.setDirection(a[0], a[1] == 1) ? 1 : 0;
-      case "term": return p.term(a[0], a[1], a[2], a[3]);
-      case "read": return p.read();
-      case "errorKind": return p.errorKind();
-      case "errorPosition": return p.errorPosition();
-      case "termCount": return p.termCount();
-      case "symbolOf": return p.symbolOf(a[0]);
-      case "argument": return p.argument(a[0], a[1]);
-      case "size": return p.size(a[0]);
-      case "depth": return p.depth(a[0]);
-      case "compare": return p.compare(a[0], a[1]);
-      case "occurrences": return p.occurrences(a[0], a[1]);
-      case "replace": return p.replace(a[0], a[1], a[2]);
-      case "write": return p.write(a[0]);
-      case "outputByte": return p.outputByte(a[0]);
-      case "equate": return p.equate(a[0], a[1]);
-      case "separate": return p.separate(a[0], a[1]);
-      case "readTheory": return p.readTheory();
-      case "equationCount": return p.equationCount();
-      case "separationCount": return p.separationCount();
-      case "isConsistent": return p.isConsistent() ? 1 : 0;
-      case "conflict": return p.conflict();
-      case "push": return p.push();
-      case "pop": return p.pop();
-      case "ruleCount": return p.ruleCount();
-      case "ruleLeft": return p.ruleLeft(a[0]);
-      case "ruleRight": return p.ruleRight(a[0]);
-      case "normalForm": return p.normalForm(a[0]);
-      case "areEqual": return p.areEqual(a[0], a[1]) ? 1 : 0;
-      case "dependsOn": return p.dependsOn(a[0], a[1], a[2]) ? 1 : 0;
-      case "stepCount": return p.stepCount(a[0]);
-      case "afterSteps": return p.afterSteps(a[0], a[1]);
-      case "countOfSize": return p.countOfSize(a[0], a[1]);
-      case "isFinite": return p.isFinite(a[0]) ? 1 : 0;
-      case "smallest": return p.smallest(a[0]);
-      case "match": return p.match(a[0], a[1]);
-      case "solution": return p.solution(a[0], a[1]);
-      case "digest": return p.digest();
-      default: throw new Error("no such call: " + op);
+  private static Map<String, Method> faceOf(Class<?> kind) {
+    Map<String, Method> face = new HashMap<>();
+    for (Method method : kind.getDeclaredMethods()) {
+      if (!Modifier.isPrivate(method.getModifiers())) {
+        face.put(method.getName(), method);
+      }
     }
+    return face;
   }
 
-  static String ask(NaiveProver p, String op, int... a) {
-    switch (op) {
-      case "feed": return p.feed(a[0], a[1], a[2], a[3], a[4]);
-      case "trim": return p.trim(a[0]);
-      case "declare": return p.declare(a[0], a[1], false);
-      case "declareVariable": return p.declare(0, 1, true);
-      case "symbolCount": return p.symbolCount();
-      case "orderByWeight": return p.orderByWeight(a[0] == 1);
-      case "promote": return p.promote(a[0], a[1]);
-      case "rankOf": return p.rankOf(a[0]);
-      case "setDirection": return p.setDirection(a[0], a[1] == 1);
-      case "term": return p.term(a[0], a[1], a[2], a[3]);
-      case "read": return p.read();
-      case "errorKind": return p.errorKind();
-      case "errorPosition": return p.errorPosition();
-      case "termCount": return p.termCount();
-      case "symbolOf": return p.symbolOf(a[0]);
-      case "argument": return p.argument(a[0], a[1]);
-      case "size": return p.size(a[0]);
-      case "depth": return p.depth(a[0]);
-      case "compare": return p.compare(a[0], a[1]);
-      case "occurrences": return p.occurrences(a[0], a[1]);
-      case "replace": return p.replace(a[0], a[1], a[2]);
-      case "write": return p.write(a[0]);
-      case "outputByte": return p.outputByte(a[0]);
-      case "equate": return p.equate(a[0], a[1]);
-      case "separate": return p.separate(a[0], a[1]);
-      case "readTheory": return p.readTheory();
-      case "equationCount": return p.equationCount();
-      case "separationCount": return p.separationCount();
-      case "isConsistent": return p.isConsistent();
-      case "conflict": return p.conflict();
-      case "push": return p.push();
-      case "pop": return p.pop();
-      case "ruleCount": return p.ruleCount();
-      case "ruleLeft": return p.ruleLeft(a[0]);
-      case "ruleRight": return p.ruleRight(a[0]);
-      case "normalForm": return p.normalForm(a[0]);
-      case "areEqual": return p.areEqual(a[0], a[1]);
-      case "dependsOn": return p.dependsOn(a[0], a[1], a[2]);
-      case "stepCount": return p.stepCount(a[0]);
-      case "afterSteps": return p.afterSteps(a[0], a[1]);
-      case "countOfSize": return p.countOfSize(a[0], a[1]);
-      case "isFinite": return p.isFinite(a[0]);
-      case "smallest": return p.smallest(a[0]);
-      case "match": return p.match(a[0], a[1]);
-      case "solution": return p.solution(a[0], a[1]);
-      case "digest": return p.digest();
-      default: throw new Error("no such call: " + op);
+  /** What feed has to be called with for a text; blanks fill up the last call. */
+  static int[][] feeds(String text) {
+    int[][] feeds = new int[Math.max(1, (text.length() + 19) / 20)][5];
+    for (int i = 0; i < 20 * feeds.length; i++) {
+      int sign = i < text.length() ? text.charAt(i) : ' ';
+      feeds[i / 20][i % 20 / 4] = feeds[i / 20][i % 20 / 4] << 8 | sign;
     }
+    return feeds;
   }
 }

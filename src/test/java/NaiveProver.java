@@ -202,7 +202,15 @@ final class NaiveProver {
     return "" + n;
   }
 
-  String declare(int arity, int weight, boolean isVariable) {
+  String declare(int arity, int weight) {
+    return declareAny(arity, weight, false);
+  }
+
+  String declareVariable() {
+    return declareAny(0, 1, true);
+  }
+
+  private String declareAny(int arity, int weight, boolean isVariable) {
     String name = input.toString();
     input.setLength(0);
     if (arity < 0 || arity > 3 || weight < 1 || weight > 9 || !name.matches("[a-z][a-z0-9]{0,7}")) {

@@ -79,12 +79,7 @@ public final class RandomRunsTest {
   }
 
   private void type(String text) {
-    for (int i = 0; i < text.length() || i == 0; i += 20) {
-      int[] words = new int[5];
-      for (int k = 0; k < 20; k++) {
-        int sign = i + k < text.length() ? text.charAt(i + k) : ' ';
-        words[k / 4] = words[k / 4] << 8 | sign;
-      }
+    for (int[] words : Calls.feeds(text)) {
       call("feed", words);
     }
     call("trim", text.length());

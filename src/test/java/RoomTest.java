@@ -50,12 +50,7 @@ public final class RoomTest {
   }
 
   private void type(String text) {
-    for (int i = 0; i < text.length() || i == 0; i += 20) {
-      int[] words = new int[5];
-      for (int k = 0; k < 20; k++) {
-        int sign = i + k < text.length() ? text.charAt(i + k) : ' ';
-        words[k / 4] = words[k / 4] << 8 | sign;
-      }
+    for (int[] words : Calls.feeds(text)) {
       ask("feed", words);
     }
     ask("trim", text.length());

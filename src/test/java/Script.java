@@ -56,13 +56,10 @@ final class Script {
 
   /** The text in the input buffer, put there by feed and trim. */
   Script text(String text) {
-    for (int i = 0; i < text.length() || i == 0; i += 20) {
-      int[] words = new int[5];
-      for (int k = 0; k < 20; k++) {
-        int sign = i + k < text.length() ? text.charAt(i + k) : ' ';
-        words[k / 4] = words[k / 4] << 8 | sign;
-      }
-      due("" + (i + 20), "feed", words);
+    int length = 0;
+    for (int[] words : Calls.feeds(text)) {
+      length += 20;
+      due("" + length, "feed", words);
     }
     return due("" + text.length(), "trim", text.length());
   }
