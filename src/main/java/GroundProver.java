@@ -305,7 +305,9 @@ public final class GroundProver {
       throw new IllegalStateException("there are too many equations");
     }
     tidy();
-    if (!theory.addEquation(numbered.get(s), numbered.get(t))) {
+    theory.addEquation(numbered.get(s), numbered.get(t));
+    if (!theory.complete()) {
+      theory.goBack(theory.equationCount - 1, theory.separationCount);
       throw new ArithmeticException("a rule would be too large");
     }
     return theory.equationCount - 1;
@@ -332,17 +334,29 @@ public final class GroundProver {
     if (!reader.readTheoryText()) {
       throw new IllegalArgumentException("the text has an error");
     }
-    int outcome = theory.addRead(reader);
+    int equations = theory.equationCount;
+    int separations = theory.separationCount;
+    int outcome = Theory.ADDED;
+    for (int i = 0; i < reader.statementCount() && outcome == Theory.ADDED; i++) {
+      outcome = theory.addStatement(reader.isEquation(i), reader.leftTerm(i), reader.rightTerm(i));
+      if (outcome == Theory.ADDED && reader.isEquation(i) && !theory.complete()) {
+        outcome = Theory.TOO_LARGE;
+      }
+    }
+    if (outcome != Theory.ADDED) {
+      theory.goBack(equations, separations);
+      theory.complete();
+    }
     if (outcome == Theory.TOO_MANY) {
       throw new IllegalStateException("there are too many equations or separations");
     }
     if (outcome == Theory.TOO_LARGE) {
       throw new ArithmeticException("a rule would be too large");
     }
-    if (outcome > 0) {
+    if (reader.statementCount() > 0) {
       symbols.fixOrder();
     }
-    return outcome;
+    return reader.statementCount();
   }
 
   public int equationCount() {
@@ -381,6 +395,7 @@ public final class GroundProver {
     }
     tidy();
     theory.closeLevel();
+    theory.complete();
     return theory.levelCount;
   }
 
@@ -1888,8 +1903,9 @@ public final class GroundProver {
 
   /** Equations, separations, levels, and the rules that belong to the equations. */
   private static final class Theory {
-    static final int TOO_MANY = -2;
-    static final int TOO_LARGE = -3;
+    static final int ADDED = 0;
+    static final int TOO_MANY = 1;
+    static final int TOO_LARGE = 2;
 
     private final Symbols symbols;
     private final TermStore store;
@@ -1927,29 +1943,17 @@ public final class GroundProver {
       return i >= 0 && i < MOST_STATEMENTS ? ruleRights[i] : NONE;
     }
 
-    /** How many statements there are, or why they cannot be added; then none of them is. */
-    int addRead(Reader reader) {
-      int equations = equationCount;
-      int separations = separationCount;
-      int outcome = 0;
-      for (int i = 0; i < reader.statementCount() && outcome >= 0; i++) {
-        boolean isEquation = reader.isEquation(i);
-        if ((isEquation ? equationCount : separationCount) >= MOST_STATEMENTS) {
-          outcome = TOO_MANY;
-        } else if (!isEquation) {
-          addSeparation(reader.leftTerm(i), reader.rightTerm(i));
-        } else {
-          appendEquation(reader.leftTerm(i), reader.rightTerm(i));
-          outcome = complete() ? 0 : TOO_LARGE;
-        }
+    /** After a statement that is an equation the rules have to be completed. */
+    int addStatement(boolean isEquation, int left, int right) {
+      if ((isEquation ? equationCount : separationCount) >= MOST_STATEMENTS) {
+        return TOO_MANY;
       }
-      if (outcome < 0) {
-        equationCount = equations;
-        separationCount = separations;
-        complete();
-        return outcome;
+      if (isEquation) {
+        addEquation(left, right);
+      } else {
+        addSeparation(left, right);
       }
-      return reader.statementCount();
+      return ADDED;
     }
 
     void addSeparation(int left, int right) {
@@ -1960,7 +1964,7 @@ public final class GroundProver {
       }
     }
 
-    private void appendEquation(int left, int right) {
+    void addEquation(int left, int right) {
       if (equationCount >= 0 && equationCount < MOST_STATEMENTS) {
         equationLefts[equationCount] = left;
         equationRights[equationCount] = right;
@@ -1968,14 +1972,10 @@ public final class GroundProver {
       }
     }
 
-    /** False if a rule would be too large; then the equation is not added. */
-    boolean addEquation(int left, int right) {
-      appendEquation(left, right);
-      boolean isAdded = complete();
-      if (!isAdded) {
-        equationCount--;
-      }
-      return isAdded;
+    /** Leaves the first statements; the rules are not touched. */
+    void goBack(int equations, int separations) {
+      equationCount = equations;
+      separationCount = separations;
     }
 
     void openLevel() {
@@ -1987,19 +1987,14 @@ public final class GroundProver {
     }
 
     void closeLevel() {
-      if (levelCount <= 0 || levelCount > MOST_LEVELS) {
-        return;
-      }
-      levelCount--;
-      separationCount = levelSeparations[levelCount];
-      if (equationCount != levelEquations[levelCount]) {
-        equationCount = levelEquations[levelCount];
-        complete();
+      if (levelCount > 0 && levelCount <= MOST_LEVELS) {
+        levelCount--;
+        goBack(levelEquations[levelCount], levelSeparations[levelCount]);
       }
     }
 
     /** Finds the rules of the equations; the old ones stay if one of the new ones is too large. */
-    private boolean complete() {
+    boolean complete() {
       gather(NONE, NONE, NONE);
       closure.close();
       closure.pourInto(grammar);
