@@ -1,42 +1,8 @@
-import java.util.List;
-import java.util.Map;
-
 /**
  * Calls with arguments from one end of int to the other, in many states: each call answers or throws
  * one of the exceptions that the document lists for it, and none that the Java machine makes.
  */
 public final class AnyArgumentsTest {
-  private static final String I = "throws IndexOutOfBoundsException";
-  private static final String A = "throws IllegalArgumentException";
-  private static final String S = "throws IllegalStateException";
-  private static final String R = "throws ArithmeticException";
-  private static final String N = "throws NoSuchElementException";
-
-  private static final Map<String, List<String>> LISTED = Map.ofEntries(
-      Map.entry("feed", List.of(S)), Map.entry("trim", List.of(A)),
-      Map.entry("declare", List.of(A, S)), Map.entry("declareVariable", List.of(A, S)),
-      Map.entry("symbolCount", List.of()), Map.entry("orderByWeight", List.of(S)),
-      Map.entry("promote", List.of(I, S)), Map.entry("rankOf", List.of(I)),
-      Map.entry("setDirection", List.of(I, S)), Map.entry("term", List.of(I, R)),
-      Map.entry("read", List.of(A)), Map.entry("errorKind", List.of()),
-      Map.entry("errorPosition", List.of()), Map.entry("termCount", List.of()),
-      Map.entry("symbolOf", List.of(I)), Map.entry("argument", List.of(I)),
-      Map.entry("size", List.of(I)), Map.entry("depth", List.of(I)),
-      Map.entry("compare", List.of(I)), Map.entry("occurrences", List.of(I)),
-      Map.entry("replace", List.of(I, R)), Map.entry("write", List.of(I, R)),
-      Map.entry("outputByte", List.of(I)), Map.entry("equate", List.of(I, A, S, R)),
-      Map.entry("separate", List.of(I, A, S)), Map.entry("readTheory", List.of(A, S, R)),
-      Map.entry("equationCount", List.of()), Map.entry("separationCount", List.of()),
-      Map.entry("isConsistent", List.of()), Map.entry("conflict", List.of(N)),
-      Map.entry("push", List.of(S)), Map.entry("pop", List.of(S)),
-      Map.entry("ruleCount", List.of()), Map.entry("ruleLeft", List.of(I)),
-      Map.entry("ruleRight", List.of(I)), Map.entry("normalForm", List.of(I, R)),
-      Map.entry("areEqual", List.of(I)), Map.entry("dependsOn", List.of(I)),
-      Map.entry("stepCount", List.of(I)), Map.entry("afterSteps", List.of(I, R)),
-      Map.entry("countOfSize", List.of(I, A)), Map.entry("isFinite", List.of(I)),
-      Map.entry("smallest", List.of(I, R)), Map.entry("match", List.of(I, A, R)),
-      Map.entry("solution", List.of(I, N, R)), Map.entry("digest", List.of()));
-
   private static final int[] ENDS = {
     Integer.MIN_VALUE, Integer.MIN_VALUE + 1, -65536, -256, -2, -1, 23, 24, 30, 255, 256, 400, 401,
     512, 1000, 2000, 65536, 1 << 20, 1 << 24, Integer.MAX_VALUE - 1, Integer.MAX_VALUE
@@ -58,7 +24,7 @@ public final class AnyArgumentsTest {
 
   private static void call(GroundProver prover, String op, int... arguments) {
     String got = Calls.ask(prover, op, arguments);
-    if (got.startsWith("throws") && !LISTED.get(op).contains(got)) {
+    if (got.startsWith("throws") && !Calls.LISTED.get(op).contains(got)) {
       wrong++;
       System.out.println(op + java.util.Arrays.toString(arguments) + " " + got);
     }
@@ -72,7 +38,7 @@ public final class AnyArgumentsTest {
   }
 
   public static void main(String[] args) {
-    String[] ops = LISTED.keySet().stream().sorted().toArray(String[]::new);
+    String[] ops = Calls.LISTED.keySet().stream().sorted().toArray(String[]::new);
     String[] symbols = {"a", "b", "f", "g", "h"};
     for (int run = 0; run < 60; run++) {
       GroundProver prover = new GroundProver();

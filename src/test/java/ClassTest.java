@@ -1,3 +1,5 @@
+import java.math.BigInteger;
+
 /** Promises 42 to 47: classes of terms, patterns, and the digest. */
 public final class ClassTest {
   private static final String INDEX = "IndexOutOfBoundsException";
@@ -7,6 +9,7 @@ public final class ClassTest {
 
   public static void main(String[] args) {
     countOfSize();
+    countOfSizeOfDifferentArguments();
     countOfSizeLarge();
     countOfSizeInManyClasses();
     isFinite();
@@ -14,10 +17,14 @@ public final class ClassTest {
     smallestTooLarge();
     match();
     matchRefused();
+    matchInOrder();
+    matchDeepPattern();
     matchManySolutions();
+    matchOneSolutionTooMany();
     solution();
     solutionTooLarge();
     digest();
+    digestWrapsAround();
     Script.end("ClassTest");
   }
 
@@ -51,6 +58,25 @@ public final class ClassTest {
         }
       }
       h.due("" + t[n], "countOfSize", 0, n);
+    }
+  }
+
+  private static void countOfSizeOfDifferentArguments() {
+    Script s = new Script("promise 42, three different arguments").symbol("a", 0).symbol("b", 0)
+        .symbol("c", 0).symbol("f", 1).symbol("u", 1).symbol("v", 1).symbol("g", 2).symbol("h", 3)
+        .theory("f(a)=a; u(b)=b; v(b)=b; g(c,c)=c;", 4).reads("h(a,b,c)", 0).reads("g(a,c)", 1);
+    // Of size n the class of a has 1 term, that of b 2^(n-1), and that of c the binary trees.
+    long[] trees = {0, 1, 0, 1, 0, 2, 0, 5, 0, 14, 0, 42, 0};
+    for (int n = 1; n <= 12; n++) {
+      long triples = 0;
+      long pairs = 0;
+      for (int k = 1; k < n; k++) {
+        pairs += n - 1 - k >= 1 ? trees[k] : 0;
+        for (int j = 1; j + k < n - 1; j++) {
+          triples += trees[k] << (j - 1);
+        }
+      }
+      s.due("" + triples, "countOfSize", 0, n).due("" + pairs, "countOfSize", 1, n);
     }
   }
 
@@ -241,6 +267,66 @@ public final class ClassTest {
         .refused(INDEX, "solution", 500, 15);
   }
 
+  /** As many as before by one shape of the term, and by another one as many as w has arguments. */
+  private static void matchOneSolutionTooMany() {
+    Script s = new Script("promise 45, more than 500 solutions");
+    for (int i = 0; i < 13; i++) {
+      s.symbol("" + (char) ('a' + i), 0);
+    }
+    s.symbol("u", 1).symbol("v", 1).symbol("w", 1).symbol("p3", 3).variable("x").variable("y")
+        .variable("z");
+    StringBuilder text = new StringBuilder();
+    for (int i = 0; i < 10; i++) {
+      char constant = (char) ('b' + i);
+      text.append(i < 5 ? "u(" + constant + ")=a;" : "");
+      text.append("v(").append(constant).append(")=a;w(").append(constant).append(")=a;");
+    }
+    s.theory(text.toString(), 25).theory("p3(l,l,l)=p3(a,a,a);u(m)=l;v(m)=l;", 3)
+        .reads("p3(u(x),v(y),w(z))", 0).reads("p3(a,a,a)", 1).due("500", "match", 0, 1);
+    int z = s.answer("solution", 499, 19);
+    s.writes("k", z).due("1", "push").theory("w(m)=l;", 1).refused(ARITHMETIC, "match", 0, 1)
+        .due("" + z, "solution", 499, 19).refused(INDEX, "solution", 500, 19)
+        .due("0", "pop").due("500", "match", 0, 1);
+  }
+
+  /** The order of the rules is another one than that of the solutions. */
+  private static void matchInOrder() {
+    Script s = signature("promise 45, in ascending order")
+        .theory("g(a,c) = f(a); g(b,b) = f(a); g(c,a) = f(a); g(a,a) = f(a); g(b,a) = f(a);", 5)
+        .reads("a", 0).reads("b", 1).reads("c", 2).reads("g(y,x)", 3).reads("f(a)", 4)
+        .due("5", "match", 3, 4);
+    int[][] due = {{0, 0}, {0, 1}, {0, 2}, {1, 1}, {2, 0}};
+    for (int k = 0; k < 5; k++) {
+      s.due("" + due[k][0], "solution", k, 5).due("" + due[k][1], "solution", k, 6);
+    }
+    // From the right and with another precedence, b before c before a.
+    Script r = signature("promise 45, in ascending order of another order").due("0", "promote", 0, 2)
+        .due("0", "setDirection", 4, 1)
+        .theory("g(a,c) = f(a); g(b,b) = f(a); g(c,a) = f(a); g(a,a) = f(a); g(b,a) = f(a);", 5)
+        .reads("a", 0).reads("b", 1).reads("c", 2).reads("g(y,x)", 3).reads("f(a)", 4)
+        .due("5", "match", 3, 4);
+    due = new int[][] {{1, 1}, {2, 0}, {0, 1}, {0, 2}, {0, 0}};
+    for (int k = 0; k < 5; k++) {
+      r.due("" + due[k][0], "solution", k, 5).due("" + due[k][1], "solution", k, 6);
+    }
+  }
+
+  private static void matchDeepPattern() {
+    Script s = signature("promise 45, the deepest patterns").theory("f(f(f(a))) = a;", 1);
+    int twelve = s.number(chain(11, "x"));
+    int thirteen = s.number(chain(12, "x"));
+    int a = s.number("a");
+    s.due("12", "size", twelve).due("13", "size", thirteen).refused(ARGUMENT, "match", thirteen, a)
+        // Eleven and one are a multiple of three.
+        .due("1", "match", twelve, a).writes("f(a)", s.answer("solution", 0, 5))
+        .due("0", "match", twelve, s.number("b"))
+        .due("1", "match", twelve, s.number(chain(11, "b"))).writes("b", s.answer("solution", 0, 5))
+        .due("1", "match", s.number("g(x,g(y,g(x,g(y,g(x,y)))))"), s.number("g(a,g(b,g(a,g(b,g(a,b)))))"))
+        .due("" + a, "solution", 0, 5).writes("b", s.answer("solution", 0, 6))
+        .due("0", "match", s.number("g(x,g(y,g(x,g(y,g(x,f(y))))))"), a)
+        .refused(ARGUMENT, "match", s.number("g(x,g(y,g(x,g(y,g(x,g(y,a))))))"), a);
+  }
+
   private static void solution() {
     Script s = signature("promise 46").theory("g(a,b) = c; f(c) = c;", 2)
         .refused(INDEX, "solution", 0, 5)
@@ -292,6 +378,22 @@ public final class ClassTest {
     }
     s.theory(many.toString(), 24);
     expectDigest(s, 4, 1, 2, 0, 3, 3, 1, 26, 0, 1, 2, 3);
+  }
+
+  /** Computed without a bound, and brought into the range of a long at the end. */
+  private static void digestWrapsAround() {
+    Script s = new Script("promise 47, which wraps around");
+    for (int i = 0; i < 24; i++) {
+      s.symbol("n" + i, 0);
+      BigInteger d = BigInteger.valueOf(17).multiply(BigInteger.valueOf(31)).add(BigInteger.valueOf(i + 1));
+      for (int rank = 0; rank <= i; rank++) {
+        d = d.multiply(BigInteger.valueOf(31)).add(BigInteger.valueOf(rank));
+      }
+      for (int k = 0; k < 5; k++) {
+        d = d.multiply(BigInteger.valueOf(31));
+      }
+      s.due("" + d.longValue(), "digest");
+    }
   }
 
   private static void expectDigest(Script s, long... numbers) {

@@ -13,6 +13,7 @@ public final class RuleTest {
     dependsOn();
     stepCount();
     afterSteps();
+    afterStepsInEachArgument();
     afterStepsTooLarge();
     Script.end("RuleTest");
   }
@@ -165,6 +166,24 @@ public final class RuleTest {
     // A step at the root comes behind those inside.
     s.reads("g(f(c),c)", 7).due("4", "stepCount", 7).due("8", "afterSteps", 7, 3).writes("g(a,a)", 8)
         .due("9", "afterSteps", 7, 4).writes("f(b)", 9);
+  }
+
+  private static void afterStepsInEachArgument() {
+    Script s = new Script("promise 41, in each argument").symbol("a", 0).symbol("b", 0).symbol("c", 0)
+        .symbol("f", 1).symbol("h", 3).due("0", "setDirection", 4, 1)
+        .theory("f(a) = b; f(b) = c; h(b,a,c) = a;", 3)
+        .reads("h(f(a),h(c,f(a),f(b)),h(b,a,f(f(a))))", 0);
+    String[] terms = {
+        "h(f(a),h(c,f(a),f(b)),h(b,a,f(f(a))))", "h(b,h(c,f(a),f(b)),h(b,a,f(f(a))))",
+        "h(b,h(c,b,f(b)),h(b,a,f(f(a))))", "h(b,h(c,b,c),h(b,a,f(f(a))))", "h(b,h(c,b,c),h(b,a,f(b)))",
+        "h(b,h(c,b,c),h(b,a,c))", "h(b,h(c,b,c),a)"
+    };
+    s.due("6", "stepCount", 0);
+    for (int i = 0; i < terms.length; i++) {
+      s.writes(terms[i], s.answer("afterSteps", 0, i));
+    }
+    s.refused(INDEX, "afterSteps", 0, 7).writes("h(b,a,c)", s.answer("ruleLeft", 2))
+        .writes("a", s.answer("ruleRight", 2));
   }
 
   private static void afterStepsTooLarge() {

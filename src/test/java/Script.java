@@ -32,9 +32,13 @@ final class Script {
 
   private void check(String what, String got, String want) {
     if (!got.equals(want)) {
-      wrong++;
-      System.out.println(name + ": " + what + " answered " + got + ", due is " + want);
+      fail(name + ": " + what + " answered " + got + ", due is " + want);
     }
+  }
+
+  static void fail(String what) {
+    wrong++;
+    System.out.println(what);
   }
 
   /** The call throws and changes nothing at all. */
@@ -115,6 +119,27 @@ final class Script {
     return due("throws IndexOutOfBoundsException", "outputByte", want.length());
   }
 
+  /** The symbol of one argument, applied to a term a number of times. */
+  int chain(int symbol, int t, int times) {
+    int made = t;
+    for (int i = 0; i < times; i++) {
+      made = answer("term", symbol, made, 0, 0);
+    }
+    return made;
+  }
+
+  /** A term of a size, not deep: from a term of size 1, by symbols of one and of two arguments. */
+  int bush(int unary, int binary, int leaf, int size) {
+    if (size <= 1) {
+      return leaf;
+    }
+    if (size % 2 == 0) {
+      return answer("term", unary, bush(unary, binary, leaf, size - 1), 0, 0);
+    }
+    int half = bush(unary, binary, leaf, (size - 1) / 2);
+    return answer("term", binary, half, half, 0);
+  }
+
   private String output() {
     StringBuilder text = new StringBuilder();
     for (int i = 0; i <= 2000; i++) {
@@ -140,7 +165,7 @@ final class Script {
     return " " + ask("errorKind") + " " + ask("errorPosition");
   }
 
-  /** All that can be asked for without changing anything, and the output. */
+  /** All that can be asked for without changing anything in the end, and the output. */
   private String state() {
     StringBuilder text = new StringBuilder(" ").append(output());
     for (String op : COUNTS) {
@@ -148,13 +173,26 @@ final class Script {
     }
     int symbols = Integer.parseInt(ask("symbolCount"));
     for (int i = 0; i < symbols; i++) {
-      text.append(' ').append(ask("rankOf", i));
+      text.append(' ').append(ask("rankOf", i)).append(kept("setDirection", i));
     }
+    text.append(kept("orderByWeight"));
     int terms = Integer.parseInt(ask("termCount"));
     for (int i = 0; i < terms; i++) {
       text.append(' ').append(ask("symbolOf", i)).append(' ').append(ask("size", i));
       text.append(' ').append(ask("isFinite", i)).append(' ').append(ask("stepCount", i));
+      text.append(' ').append(ask("compare", i, i / 2)).append(' ').append(ask("areEqual", i, i / 2));
     }
     return text.toString();
+  }
+
+  /** What a call that chooses something answers, which is what was chosen before; it is put back. */
+  private String kept(String op, int... arguments) {
+    int[] all = java.util.Arrays.copyOf(arguments, arguments.length + 1);
+    String before = ask(op, all);
+    if (!before.startsWith("throws")) {
+      all[arguments.length] = Integer.parseInt(before);
+      ask(op, all);
+    }
+    return " " + before;
   }
 }

@@ -41,24 +41,12 @@ public final class TermTest {
         .writes("h(a,b,g(f(b),a))", 4);
   }
 
-  /** Doubles to size 2^k - 1, and adds the rest in front. */
   private static int ofSize(Script s, int size) {
-    if (size == 1) {
-      return s.answer("term", 0, 0, 0, 0);
-    }
-    if (size % 2 == 0) {
-      return s.answer("term", 2, ofSize(s, size - 1), 0, 0);
-    }
-    int half = ofSize(s, (size - 1) / 2);
-    return s.answer("term", 3, half, half, 0);
+    return s.bush(2, 3, s.answer("term", 0, 0, 0, 0), size);
   }
 
   private static int ofDepth(Script s, int depth) {
-    int t = s.answer("term", 0, 0, 0, 0);
-    for (int i = 1; i < depth; i++) {
-      t = s.answer("term", 2, t, 0, 0);
-    }
-    return t;
+    return s.chain(2, s.answer("term", 0, 0, 0, 0), depth - 1);
   }
 
   private static void tooLarge() {
@@ -223,7 +211,7 @@ public final class TermTest {
 
   private static void writeTooLong() {
     Script s = new Script("promise 23, too long").symbol("a", 0).symbol("abcdefgh", 0)
-        .symbol("g", 2).symbol("f", 1);
+        .symbol("g", 2).symbol("f", 1).symbol("ff", 1);
     // With n constants, n - 1 symbols g and their signs: 8 n + 4 (n - 1) = 12 n - 4 bytes.
     int t = s.answer("term", 1, 0, 0, 0);
     int longest = t;
@@ -237,15 +225,16 @@ public final class TermTest {
     }
     longest = s.answer("term", 2, longest, more, 0);
     s.due("" + (12 * 160 - 4), "write", longest);
-    // 1916 bytes; then 1916 + 84 = 2000, of which f() is 3 each.
-    for (int i = 0; i < 28; i++) {
-      longest = s.answer("term", 3, longest, 0, 0);
-    }
-    s.due("2000", "write", longest);
+    // 1916 bytes; 27 times f() make 1997 of them, f() then 2000 and ff() 2001.
+    longest = s.chain(3, longest, 27);
     int small = s.answer("term", 0, 0, 0, 0);
-    s.due("40", "outputByte", 55).due("103", "outputByte", 56).writes("a", small);
-    s.refused(ARITHMETIC, "write", s.answer("term", 3, longest, 0, 0));
-    s.outputs("a");
+    int most = s.answer("term", 3, longest, 0, 0);
+    int over = s.answer("term", 4, longest, 0, 0);
+    s.due("1997", "write", longest).due("2000", "write", most)
+        .due("40", "outputByte", 55).due("103", "outputByte", 56).due("41", "outputByte", 1999)
+        .refused(INDEX, "outputByte", 2000).refused(ARITHMETIC, "write", over)
+        .due("41", "outputByte", 1999).writes("a", small).refused(ARITHMETIC, "write", over)
+        .refused(ARITHMETIC, "write", s.answer("term", 3, most, 0, 0)).outputs("a");
   }
 
   private static void outputByte() {

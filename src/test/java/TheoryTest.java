@@ -48,23 +48,11 @@ public final class TheoryTest {
   }
 
   private static int chain(Script s, int depth, String constant) {
-    int t = s.number(constant);
-    for (int i = 1; i < depth; i++) {
-      t = s.answer("term", 3, t, 0, 0);
-    }
-    return t;
+    return s.chain(3, s.number(constant), depth - 1);
   }
 
-  /** A term of size 2 n - 1 with n different arguments, not deep. */
   private static int bush(Script s, int size, int constant) {
-    if (size == 1) {
-      return constant;
-    }
-    if (size % 2 == 0) {
-      return s.answer("term", 3, bush(s, size - 1, constant), 0, 0);
-    }
-    int half = bush(s, (size - 1) / 2, constant);
-    return s.answer("term", 4, half, half, 0);
+    return s.bush(3, 4, constant, size);
   }
 
   private static void equateTooLarge() {

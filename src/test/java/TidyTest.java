@@ -13,6 +13,7 @@ public final class TidyTest {
     statementsAndRules();
     rulesUnlikeEquations();
     solutions();
+    solutionsWithMoreVariables();
     numbers();
     Script.end("TidyTest");
   }
@@ -81,7 +82,7 @@ public final class TidyTest {
   /** Terms of equations that are in no rule, and right sides that are in no equation. */
   private static void rulesUnlikeEquations() {
     Script s = signature("rules unlike equations")
-        .theory("d(d(d(a))) = a; d(d(d(d(d(a))))) = a; i(e(b)) = h(g(b)); c = b;", 4)
+        .theory("d(d(d(a))) = a; a = d(d(d(d(d(a))))); i(e(b)) = h(g(b)); c = b;", 4)
         .theory("k(c) = f(c); e(c) = g(c);", 2).due("1", "push").theory("a = j(b);", 1)
         .due("6", "ruleCount");
     growTerms(s);
@@ -104,6 +105,20 @@ public final class TidyTest {
     growTerms(s);
     makeGarbage(s, 60);
     s.writes("h(h(a))", s.answer("solution", 0, 12));
+  }
+
+  private static void solutionsWithMoreVariables() {
+    Script s = signature("solutions with three variables").variable("y").variable("z").due("1", "push")
+        .theory("l(d(d(a)),l(e(e(b)),f(f(c)))) = c; l(g(g(a)),l(i(i(b)),j(j(c)))) = c;", 2);
+    int pattern = s.number("l(x,l(y,z))");
+    int t = s.number("c");
+    s.due("2", "match", pattern, t).due("0", "pop");
+    growTerms(s);
+    makeGarbage(s, 60);
+    String[] due = {"d(d(a))", "e(e(b))", "f(f(c))", "g(g(a))", "i(i(b))", "j(j(c))"};
+    for (int i = 0; i < 6; i++) {
+      s.writes(due[i], s.answer("solution", i / 3, 12 + i % 3));
+    }
   }
 
   private static void numbers() {
