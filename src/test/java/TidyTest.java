@@ -12,6 +12,7 @@ public final class TidyTest {
   public static void main(String[] args) {
     statementsAndRules();
     rulesUnlikeEquations();
+    equationsWithoutRules();
     solutions();
     solutionsWithMoreVariables();
     numbers();
@@ -94,6 +95,17 @@ public final class TidyTest {
         .due("0", "pop").due("5", "ruleCount").due("1", "areEqual", da, 0)
         .writes("e(b)", s.answer("normalForm", s.number("g(c)")))
         .due("1", "dependsOn", s.number("e(b)"), s.number("g(b)"), 5);
+  }
+
+  /** Terms of equations that are in no rule until a level is closed. */
+  private static void equationsWithoutRules() {
+    Script s = signature("equations without rules").theory("k(k(a)) = a; a = j(j(b));", 2)
+        .due("1", "push").theory("k(a) = a; j(b) = a; j(a) = a;", 3).due("3", "ruleCount");
+    growTerms(s);
+    makeGarbage(s, 60);
+    s.due("0", "pop").due("2", "ruleCount");
+    s.writes("j(j(b))", s.answer("ruleLeft", 0)).writes("a", s.answer("ruleRight", 0))
+        .writes("k(k(a))", s.answer("ruleLeft", 1)).writes("a", s.answer("ruleRight", 1));
   }
 
   private static void solutions() {
