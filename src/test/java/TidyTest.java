@@ -1,3 +1,6 @@
+import java.util.ArrayList;
+import java.util.List;
+
 /**
  * What is left of terms that nobody needs is dropped when there is much of it; whatever is still
  * needed, with or without a number, has to outlive that.
@@ -15,6 +18,7 @@ public final class TidyTest {
     equationsWithoutRules();
     solutions();
     solutionsWithMoreVariables();
+    termsInTheirPlaces();
     numbers();
     Script.end("TidyTest");
   }
@@ -130,6 +134,25 @@ public final class TidyTest {
     String[] due = {"d(d(a))", "e(e(b))", "f(f(c))", "g(g(a))", "i(i(b))", "j(j(c))"};
     for (int i = 0; i < 6; i++) {
       s.writes(due[i], s.answer("solution", i / 3, 12 + i % 3));
+    }
+  }
+
+  /** Terms that are made between those that are dropped, and so in their places. */
+  private static void termsInTheirPlaces() {
+    Script s = signature("terms in the places of others");
+    growTerms(s);
+    List<String> texts = new ArrayList<>();
+    List<Integer> numbers = new ArrayList<>();
+    for (int i = 0; i < 150; i++) {
+      makeGarbage(s, 1);
+      String text = "l(" + "d(".repeat(i % 7) + "e(f(b))" + ")".repeat(i % 7) + ",l(" + "g(".repeat(i / 7)
+          + "x" + ")".repeat(i / 7) + ",h(i(c))))";
+      texts.add(text);
+      numbers.add(s.number(text));
+    }
+    for (int i = 0; i < texts.size(); i++) {
+      s.writes(texts.get(i), numbers.get(i)).text(texts.get(i)).due("" + numbers.get(i), "read")
+          .due("" + (9 + i % 7 + i / 7), "size", numbers.get(i));
     }
   }
 
