@@ -153,7 +153,11 @@ public final class DescriptionTextsTest {
         .error("z=b;", "readTheory", VARIABLE, 0).error("b=z;", "readTheory", UNKNOWN, 0)
         .error("a=b A", "readTheory", UNKNOWN, 2).error("a=f A", "readTheory", ARITY, 2)
         .error("a(b", "read", ARITY, 0).error("a (", "read", ARITY, 0).error("z(", "readTheory", VARIABLE, 0)
-        .error("f()", "read", FORM, 2).error("f( )", "read", FORM, 3).error("f)", "read", ARITY, 0);
+        .error("f()", "read", FORM, 2).error("f( )", "read", FORM, 3).error("f)", "read", ARITY, 0)
+        // At this ")" two names lack arguments: the error is that of the name directly before it.
+        .error("g(f)", "read", ARITY, 2).error("g(f )", "read", ARITY, 2).error("h(g(f))", "read", ARITY, 4)
+        .error("g(f(a))", "read", ARITY, 0).error("h(a,g)", "read", ARITY, 4)
+        .error("g(f)=a;", "readTheory", ARITY, 2).error("a=g(f);", "readTheory", ARITY, 4);
   }
 
   private static void parentheses() {
